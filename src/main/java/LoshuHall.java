@@ -924,7 +924,7 @@ public final class LoshuHall {
             return true;
         }
 
-        /** The last number of a line is told by the others; so lowestAt and highestAt bound what FITS, and leave nothing to test. */
+        /** The last number of a line is told by the others; so lowestAt and highestAt bound just what FITS. */
         private int lowestAt(int place) {
             int lowest = 1;
             for (int way = 0; way < LINES_AT_A_POINT; way++) {
@@ -987,7 +987,10 @@ public final class LoshuHall {
         }
     }
 
-    /** Up to the SIDE 3 the COMPLETIONS of an EMPTY square are the FORMS of any one of them: what tells a square from its FORMS leaves it alone. */
+    /**
+     * Up to the SIDE 3 the COMPLETIONS of an EMPTY square are the FORMS of any one of them: points leave one COMPLETION
+     * if they tell the square from each of its FORMS that is another.
+     */
     private static final class Givens {
         private final int[] differences;
 

@@ -17,6 +17,7 @@ public final class CompletionsTest {
         completionsStopAtTheirLimits();
         completionsRefuse();
         completionRefuses();
+        whatFitsIsToldByEachLine();
         estimatesOfHoledSquares();
         estimatesOfFewNumbers();
         estimatesOfFullSquares();
@@ -169,6 +170,33 @@ public final class CompletionsTest {
         Check.fails("completion which -1", Check.IAE, () -> hall.completion(1, -1, 0, 0));
         Check.fails("completion which far below 0", Check.IAE, () -> hall.completion(1, Integer.MIN_VALUE, 0, 0));
         Check.fails("completion of the side 5", Check.ISE, () -> hall.completion(0, 0, 0, 0));
+    }
+
+    /** Rows and columns that stay as they are, with DIAGONALS of other sums: one of them, or both. */
+    private static void whatFitsIsToldByEachLine() {
+        int faults = 0;
+        for (int[][] full : MAGIC) {
+            int n = full.length;
+            for (int by = 0; by < n * n * n; by++) {
+                int[][] a = Naive.changed(Naive.changed(full, LoshuHall.DOWN, by % n), LoshuHall.RIGHT, by / n % n);
+                int[] kept = a[0];
+                a[0] = a[by / n / n];
+                a[by / n / n] = kept;
+                faults += Naive.sum(a, 2, 0) == n * (n * n + 1) / 2 != (Naive.sum(a, 3, n - 1) == n * (n * n + 1) / 2) ? 1 : 0;
+                areTold(a);
+                isEstimated(a, by);
+                for (int r = 0; r < n; r++) {
+                    for (int c = 0; c < n; c++) {
+                        a[r][c] = r == c || r + c == n - 1 ? a[r][c] : 0;
+                    }
+                }
+                isEstimated(a, by);
+                if (n == 3) {
+                    areTold(a);
+                }
+            }
+        }
+        Check.holds("some have one DIAGONAL of another sum", faults > 5);
     }
 
     private static void isEstimated(int[][] a, int seed) {

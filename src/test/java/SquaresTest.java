@@ -13,6 +13,7 @@ public final class SquaresTest {
         crossIsMade();
         digitsAreMade();
         luxIsMade();
+        luxIsMadeBehindOtherCalls();
         makersHoldForTheirSidesAlone();
         makeRefuses();
         lawsOfKnownSquares();
@@ -145,6 +146,18 @@ public final class SquaresTest {
     private static void luxIsMade() {
         isMade(LoshuHall.LUX, 6, 79, 32, 29, 4, 1, 24, 21, 30, 31, 2, 3, 22, 23, 12, 9, 17, 20, 28, 25, 10, 11, 18, 19,
             26, 27, 13, 16, 36, 33, 5, 8, 14, 15, 34, 35, 6, 7);
+    }
+
+    private static void luxIsMadeBehindOtherCalls() {
+        LoshuHall fresh = new LoshuHall();
+        fresh.make(LoshuHall.LUX, 6);
+        LoshuHall used = new LoshuHall();
+        used.make(LoshuHall.SIEGE, 9);
+        used.change(0, LoshuHall.TURN, 1);
+        used.make(LoshuHall.LUX, 6);
+        Check.due("LUX behind a change", 0, Naive.differing(Naive.read(fresh, 0, 6), Naive.read(used, 1, 6)));
+        used.make(LoshuHall.LUX, 6);
+        Check.due("LUX behind LUX", 0, Naive.differing(Naive.read(fresh, 0, 6), Naive.read(used, 2, 6)));
     }
 
     private static void makersHoldForTheirSidesAlone() {
