@@ -1,4 +1,4 @@
-/** Counts what is not as due; each test asks it at its end. */
+/** Counts what is not as due; each test tells it at its end. */
 final class Check {
     static final String IOOBE = "IndexOutOfBoundsException";
     static final String IAE = "IllegalArgumentException";
@@ -7,8 +7,14 @@ final class Check {
     private static int wrong = 0;
     private static int asked = 0;
 
+    private Check() { }
+
     interface Call {
         long answer();
+    }
+
+    static long bit(boolean is) {
+        return is ? 1 : 0;
     }
 
     static void due(String what, long want, long got) {
@@ -20,22 +26,23 @@ final class Check {
     }
 
     static void holds(String what, boolean isSo) {
-        due(what, 1, isSo ? 1 : 0);
+        due(what, 1, bit(isSo));
     }
 
     /** The exception must be of the very class: what the machine throws is of a class below it. */
     static void fails(String what, String exception, Call call) {
         asked++;
-        String got = nameOf(call);
+        String got = outcome(call);
         if (!got.equals(exception)) {
             wrong++;
             System.out.println("  " + what + " gave " + got + ", due is " + exception);
         }
     }
 
-    private static String nameOf(Call call) {
+    /** What the call answers, or the class of what it throws. */
+    static String outcome(Call call) {
         try {
-            return "answer " + call.answer();
+            return "" + call.answer();
         } catch (RuntimeException e) {
             return e.getClass().getSimpleName();
         }

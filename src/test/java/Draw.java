@@ -21,4 +21,18 @@ final class Draw {
         }
         return a;
     }
+
+    /** So many points of it are EMPTY. */
+    int[][] holed(int[][] square, int holes) {
+        int[][] a = Naive.copy(square);
+        int n = a.length;
+        for (int made = 0; made < holes;) {
+            int p = below(n * n);
+            if (a[p / n][p % n] != 0) {
+                a[p / n][p % n] = 0;
+                made++;
+            }
+        }
+        return a;
+    }
 }

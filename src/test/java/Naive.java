@@ -6,34 +6,6 @@ import java.util.TreeSet;
 final class Naive {
     private Naive() { }
 
-    static int[][] read(LoshuHall hall, int square, int side) {
-        int[][] a = new int[side][side];
-        for (int r = 0; r < side; r++) {
-            for (int c = 0; c < side; c++) {
-                a[r][c] = hall.at(square, r, c);
-            }
-        }
-        return a;
-    }
-
-    static int lay(LoshuHall hall, int[][] a) {
-        int square = hall.square(a.length);
-        for (int r = 0; r < a.length; r++) {
-            for (int c = 0; c < a.length; c++) {
-                hall.put(square, r, c, a[r][c]);
-            }
-        }
-        return square;
-    }
-
-    static int[][] of(int side, int... numbers) {
-        int[][] a = new int[side][side];
-        for (int p = 0; p < side * side; p++) {
-            a[p / side][p % side] = numbers[p];
-        }
-        return a;
-    }
-
     static int[][] copy(int[][] a) {
         int[][] b = new int[a.length][];
         for (int r = 0; r < a.length; r++) {
@@ -44,6 +16,51 @@ final class Naive {
 
     static int mod(int value, int by) {
         return ((value % by) + by) % by;
+    }
+
+    // ---- makers
+
+    /** SIEGE by its closed form: each SIDE of numbers goes up to the right, and begins two rows below, one column to the left. */
+    static int[][] siege(int n) {
+        int[][] a = new int[n][n];
+        for (int k = 0; k < n * n; k++) {
+            a[mod(2 * (k / n) - k % n, n)][mod(n / 2 - k / n + k % n, n)] = k + 1;
+        }
+        return a;
+    }
+
+    static int[][] cross(int n) {
+        int[][] a = new int[n][n];
+        for (int r = 0; r < n; r++) {
+            for (int c = 0; c < n; c++) {
+                boolean isOnCross = (r - c) % 4 == 0 || (r + c) % 4 == 3;
+                a[r][c] = isOnCross ? n * n - n * r - c : n * r + c + 1;
+            }
+        }
+        return a;
+    }
+
+    static int[][] digits(int n) {
+        int[][] a = new int[n][n];
+        for (int r = 0; r < n; r++) {
+            for (int c = 0; c < n; c++) {
+                a[r][c] = n * ((r + 2 * c) % n) + (2 * r + c) % n + 1;
+            }
+        }
+        return a;
+    }
+
+    static int[][] lux() {
+        int[][] three = siege(3);
+        int[][] a = new int[6][6];
+        for (int r = 0; r < 6; r++) {
+            for (int c = 0; c < 6; c++) {
+                boolean isUnlike = r / 2 == 1 && c / 2 == 1 || r / 2 == 2 && c / 2 != 1;
+                String order = isUnlike ? "1423" : "4123";
+                a[r][c] = 4 * (three[r / 2][c / 2] - 1) + order.charAt(r % 2 * 2 + c % 2) - '0';
+            }
+        }
+        return a;
     }
 
     // ---- laws
@@ -243,7 +260,7 @@ final class Naive {
     private static void complete(int[][] a, int place, List<int[][]> all) {
         int n = a.length;
         if (place == n * n) {
-            if (normal(a) && magic(a)) {
+            if (magic(a) && normal(a)) {
                 all.add(copy(a));
             }
             return;
@@ -331,6 +348,32 @@ final class Naive {
             a[p / n][p % n] = choices.get((int) (state % choices.size()));
         }
         return product;
+    }
+
+    /** The least of the smallest sets, where the COMPLETIONS of a set are those of the EMPTY square that agree with it. */
+    static int givens(int[][] a) {
+        int n = a.length;
+        List<int[][]> all = completions(new int[n][n]);
+        int best = -1;
+        for (int set = 0; set < 1 << n * n; set++) {
+            int agreeing = 0;
+            for (int[][] other : all) {
+                agreeing += agrees(a, other, set) ? 1 : 0;
+            }
+            if (agreeing == 1 && (best < 0 || Integer.bitCount(set) < Integer.bitCount(best))) {
+                best = set;
+            }
+        }
+        return best;
+    }
+
+    private static boolean agrees(int[][] a, int[][] b, int set) {
+        for (int p = 0; p < a.length * a.length; p++) {
+            if ((set >> p & 1) != 0 && a[p / a.length][p % a.length] != b[p / a.length][p % a.length]) {
+                return false;
+            }
+        }
+        return true;
     }
 
     // ---- slips, pairs

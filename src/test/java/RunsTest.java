@@ -1,11 +1,13 @@
 import java.util.ArrayList;
+import java.util.Arrays;
 import java.util.List;
 
-/** Runs of 512 drawn calls on one object, right and wrong ones, each held against the document's words. */
+/** Promises 2 to 22: runs of 512 drawn calls on one object, right and wrong ones, each held against the document's words. */
 public final class RunsTest {
-    private static final int RUNS = 20;
-    private static final int CALLS = 512;
-    private static final int KINDS = 21;
+    private static final int RUNS = 40;
+    private static final int CALLS_THAT_READ = 64;
+    private static final String[] METHODS = {"square", "make", "stack", "product", "put", "at", "laws", "sum", "change", "same", "least", "kin",
+        "classes", "completions", "completion", "estimate", "givens", "slip", "orthogonal", "crossings", "dimension"};
 
     private final Draw draw;
     private final LoshuHall hall = new LoshuHall();
@@ -22,23 +24,15 @@ public final class RunsTest {
         Check.end("RunsTest");
     }
 
+    /** The last ones of the 512 read points that are drawn: more calls than these are free to answer otherwise. */
     private void run(int run) {
-        for (int i = 0; i < CALLS; i++) {
-            int kind = i < 12 ? draw.below(3) * 3 / 2 : draw.below(KINDS);
+        for (int i = 0; i < Halls.MOST_CALLS; i++) {
+            int kind = i < 12 ? draw.below(3) * 3 / 2 : i < Halls.MOST_CALLS - CALLS_THAT_READ ? draw.below(METHODS.length) : 5;
             int[] a = {drawn(9), drawn(kind == 20 ? 63 : 8), drawn(6), draw.below(9) == 0 ? drawn(1000) : drawn(17)};
-            String got = answered(() -> asked(kind, a));
-            String due = answered(() -> due(kind, a));
-            Check.holds("run " + run + ", call " + i + ", method " + kind + " of " + java.util.Arrays.toString(a) + " gave " + got + ", due is " + due, got.equals(due));
-            if (i % 64 == 63) {
-                squaresAreDue(run, i);
-            }
-        }
-    }
-
-    private void squaresAreDue(int run, int call) {
-        for (int s = 0; s < squares.size(); s++) {
-            int[][] a = squares.get(s);
-            Check.due("run " + run + ", call " + call + ", square " + s, 0, Naive.differing(a, Naive.read(hall, s, a.length)));
+            String got = Check.outcome(() -> asked(kind, a));
+            String due = Check.outcome(() -> due(kind, a));
+            String what = "run " + run + ", call " + i + ", " + METHODS[kind] + " of some of " + Arrays.toString(a);
+            Check.holds(what + " gave " + got + ", due is " + due, got.equals(due));
         }
     }
 
@@ -49,18 +43,6 @@ public final class RunsTest {
             return -1 - draw.below(2);
         }
         return way == 1 ? Integer.MAX_VALUE - draw.below(2) : way == 2 ? Integer.MIN_VALUE + draw.below(2) : draw.below(most + 1);
-    }
-
-    private static String answered(Check.Call call) {
-        try {
-            return "" + call.answer();
-        } catch (RuntimeException e) {
-            return e.getClass().getName();
-        }
-    }
-
-    private static long bit(boolean is) {
-        return is ? 1 : 0;
     }
 
     private long asked(int kind, int[] a) {
@@ -74,7 +56,7 @@ public final class RunsTest {
             case 6: return hall.laws(a[0]);
             case 7: return hall.sum(a[0], a[2], a[1]);
             case 8: return hall.change(a[0], a[2], a[2] == 2 ? a[3] : a[1]);
-            case 9: return bit(hall.same(a[0], a[1]));
+            case 9: return Check.bit(hall.same(a[0], a[1]));
             case 10: return hall.least(a[0], a[1], a[2]);
             case 11: return hall.kin(a[0]);
             case 12: return hall.classes();
@@ -83,7 +65,7 @@ public final class RunsTest {
             case 15: return hall.estimate(a[0], a[3] * 64);
             case 16: return hall.givens(a[0], a[1] % 2 == 0);
             case 17: return hall.slip(a[0], a[2]);
-            case 18: return bit(hall.orthogonal(a[0], a[1]));
+            case 18: return Check.bit(hall.orthogonal(a[0], a[1]));
             case 19: return hall.crossings(a[0], a[3]);
             default: return hall.dimension(a[0], a[1]);
         }
@@ -100,7 +82,7 @@ public final class RunsTest {
             case 6: return Naive.laws(square(a[0]));
             case 7: return sum(square(a[0]), a[2], a[1]);
             case 8: return changed(square(a[0]), a[0], a[2], a[2] == 2 ? a[3] : a[1]);
-            case 9: return bit(Naive.kin(square(a[0]), square(a[1])));
+            case 9: return Check.bit(Naive.kin(square(a[0]), square(a[1])));
             case 10: return Naive.least(point(square(a[0]), a[1], a[2]))[a[1]][a[2]];
             case 11: return kin(square(a[0]));
             case 12: return classes();
@@ -148,13 +130,14 @@ public final class RunsTest {
         return squares.size() - 1;
     }
 
-    /** What a maker makes is held against the document elsewhere: here a fresh object makes it. */
     private long made(int maker, int side) {
-        LoshuHall fresh = new LoshuHall();
-        fresh.make(maker, side);
-        added(side);
-        squares.set(squares.size() - 1, Naive.read(fresh, 0, side));
-        return squares.size() - 1;
+        between(maker, 0, 3);
+        between(side, 1, 9);
+        String[] sides = {"13579", "48", "157", "6"};
+        allowed(sides[maker].indexOf('0' + side) >= 0);
+        long square = added(side);
+        squares.set((int) square, maker == 0 ? Naive.siege(side) : maker == 1 ? Naive.cross(side) : maker == 2 ? Naive.digits(side) : Naive.lux());
+        return square;
     }
 
     private static boolean isWithin(int[][] a, int lowest, int highest) {
@@ -264,9 +247,8 @@ public final class RunsTest {
 
     private static long givens(int[][] a, boolean isSet) {
         allowed(a.length <= 3 && Naive.normal(a) && Naive.magic(a));
-        LoshuHall fresh = new LoshuHall();
-        Naive.lay(fresh, a);
-        return fresh.givens(0, isSet);
+        int set = Naive.givens(a);
+        return isSet ? set : Integer.bitCount(set);
     }
 
     private static long slip(int[][] a, int what) {
@@ -275,7 +257,7 @@ public final class RunsTest {
 
     private static long orthogonal(int[][] a, int[][] b) {
         allowed(a.length == b.length);
-        return bit(Naive.orthogonal(a, b));
+        return Check.bit(Naive.orthogonal(a, b));
     }
 
     private static long crossings(int[][] a, int total) {
