@@ -63,7 +63,8 @@ public final class CallsTest {
         LoshuHall hall = new LoshuHall();
         for (int call = 0; call < Halls.MOST_CALLS - 1; call++) {
             int value = call;
-            Check.fails(CALL + "a refused SQUARE, as the call " + (call + 1), Check.IAE, () -> hall.square(value % 2 == 0 ? -value : 10 + value));
+            Check.fails(CALL + "a refused SQUARE, as the call " + (call + 1), Check.IAE,
+                () -> hall.square(value % 2 == 0 ? -value : 10 + value));
         }
         Check.due(CALL + "the first SQUARE as the call 512", 0, hall.square(9));
     }

@@ -4,10 +4,42 @@ final class Check {
     static final String IAE = "IllegalArgumentException";
     static final String ISE = "IllegalStateException";
 
-    private static int wrong = 0;
-    private static int asked = 0;
+    private static final int MOST_SECONDS = 20;
+    private static final int MOST_SECONDS_BEHIND_A_FAULT = 3;
+    private static final int MOST_WRONG = 200;
+
+    private static volatile int asked = 0;
+    private static volatile int wrong = 0;
+
+    static {
+        Thread watch = new Thread(Check::endWhatDoesNotEnd);
+        watch.setDaemon(true);
+        watch.start();
+    }
 
     private Check() { }
+
+    /** A call that does not end is not as due: without this the tests would not end either. */
+    private static void endWhatDoesNotEnd() {
+        int before = -1;
+        for (int seconds = 0; seconds < mostSeconds(); seconds++) {
+            if (asked != before) {
+                before = asked;
+                seconds = 0;
+            }
+            try {
+                Thread.sleep(1000);
+            } catch (InterruptedException e) {
+                return;
+            }
+        }
+        System.out.println("  a call does not end, behind " + asked + " asked, " + wrong + " not as due");
+        Runtime.getRuntime().halt(1);
+    }
+
+    private static int mostSeconds() {
+        return wrong == 0 ? MOST_SECONDS : MOST_SECONDS_BEHIND_A_FAULT;
+    }
 
     interface Call {
         long answer();
@@ -18,10 +50,9 @@ final class Check {
     }
 
     static void due(String what, long want, long got) {
-        asked++;
+        asked = asked + 1;
         if (got != want) {
-            wrong++;
-            System.out.println("  " + what + " answered " + got + ", due is " + want);
+            isWrong(what + " answered " + got + ", due is " + want);
         }
     }
 
@@ -31,11 +62,19 @@ final class Check {
 
     /** The exception must be of the very class: what the machine throws is of a class below it. */
     static void fails(String what, String exception, Call call) {
-        asked++;
+        asked = asked + 1;
         String got = outcome(call);
         if (!got.equals(exception)) {
-            wrong++;
-            System.out.println("  " + what + " gave " + got + ", due is " + exception);
+            isWrong(what + " gave " + got + ", due is " + exception);
+        }
+    }
+
+    /** So many tell enough: the rest is not asked. */
+    private static void isWrong(String what) {
+        wrong = wrong + 1;
+        System.out.println("  " + what);
+        if (wrong == MOST_WRONG) {
+            end("stopped");
         }
     }
 

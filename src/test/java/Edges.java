@@ -96,6 +96,7 @@ final class Edges {
 
     /** SQUARES are numbered from 0: with 1, 7 and 8 each one is there, and it is that one that is asked. */
     static void eachSquare(String call, int[][][] eight, OfInt asked) {
+        eachInTurn(call, eight, asked);
         for (int count : new int[] {1, 7, 8}) {
             int[][][] squares = java.util.Arrays.copyOf(eight, count);
             for (int square = 0; square < count; square++) {
@@ -103,6 +104,23 @@ final class Edges {
                 String due = Check.outcome(() -> asked.asked(Halls.of(eight[s]), 0));
                 String got = Check.outcome(() -> asked.asked(Halls.of(squares), s));
                 Check.holds(call + "the SQUARE " + s + " of " + count + " gave " + got + ", alone " + due, got.equals(due));
+            }
+        }
+    }
+
+    /** An answer hangs on the square alone, not on what was asked of others ahead of it. */
+    private static void eachInTurn(String call, int[][][] eight, OfInt asked) {
+        for (int square = 0; square < eight.length; square++) {
+            int second = square;
+            String due = Check.outcome(() -> asked.asked(Halls.of(eight), second));
+            for (int other = 0; other < eight.length; other++) {
+                int first = other;
+                if (first != second) {
+                    LoshuHall hall = Halls.of(eight);
+                    Check.outcome(() -> asked.asked(hall, first));
+                    String got = Check.outcome(() -> asked.asked(hall, second));
+                    Check.holds(call + "the SQUARE " + second + " behind the SQUARE " + first + " gave " + got + ", at first " + due, got.equals(due));
+                }
             }
         }
     }

@@ -10,7 +10,8 @@ import java.util.TreeSet;
 public final class FaceTest {
     private static final String[] CONSTANTS = {
         "NONE -1", "EMPTY 0", "SIEGE 0", "CROSS 1", "DIGITS 2", "LUX 3", "TURN 0", "FLIP 1", "COMPLEMENT 2", "DOWN 3",
-        "RIGHT 4", "PAIRS 5", "FULL 1", "ROWS 2", "COLUMNS 4", "DIAGONALS 8", "BROKEN 16", "OPPOSITE 32", "NORMAL 64", "POWERS 128",
+        "RIGHT 4", "PAIRS 5", "FULL 1", "ROWS 2", "COLUMNS 4", "DIAGONALS 8", "BROKEN 16", "OPPOSITE 32", "NORMAL 64",
+        "POWERS 128",
     };
     private static final String[] METHODS = {
         "int square(int) IllegalArgumentException IllegalStateException",
@@ -52,7 +53,8 @@ public final class FaceTest {
             Modifier.isPublic(constructors[0].getModifiers()) && constructors[0].getParameterCount() == 0);
         for (Class<?> inside : LoshuHall.class.getDeclaredClasses()) {
             int of = inside.getModifiers();
-            Check.holds(inside + " is static and not public", Modifier.isStatic(of) && !Modifier.isPublic(of) && !Modifier.isProtected(of));
+            Check.holds(inside + " is static and not public",
+                Modifier.isStatic(of) && !Modifier.isPublic(of) && !Modifier.isProtected(of));
         }
     }
 
@@ -65,7 +67,8 @@ public final class FaceTest {
         for (Field field : LoshuHall.class.getDeclaredFields()) {
             if (!isHidden(field)) {
                 int modifiers = field.getModifiers();
-                Check.holds(field + " is a constant", Modifier.isPublic(modifiers) && Modifier.isStatic(modifiers) && Modifier.isFinal(modifiers));
+                Check.holds(field + " is a constant",
+                    Modifier.isPublic(modifiers) && Modifier.isStatic(modifiers) && Modifier.isFinal(modifiers));
                 Check.holds(field + " is in the face", due.remove(field.getName() + " " + field.getInt(null)));
             }
         }
@@ -77,7 +80,8 @@ public final class FaceTest {
         TreeSet<String> names = new TreeSet<>();
         for (Method method : LoshuHall.class.getDeclaredMethods()) {
             if (!isHidden(method)) {
-                Check.holds(method + " is public", Modifier.isPublic(method.getModifiers()) && !Modifier.isStatic(method.getModifiers()));
+                Check.holds(method + " is public",
+                    Modifier.isPublic(method.getModifiers()) && !Modifier.isStatic(method.getModifiers()));
                 Check.holds(method + " is in the face", due.remove(wordsOf(method)));
                 names.add(method.getName());
             }

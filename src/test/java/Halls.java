@@ -1,4 +1,6 @@
+import java.util.ArrayList;
 import java.util.Arrays;
+import java.util.List;
 
 /** Halls that are laid for a test, the same each time: what a call leaves is held against a hall that was not asked. */
 final class Halls {
@@ -82,6 +84,42 @@ final class Halls {
             square(3, 2, 4, 9, 6, 8, 1, 7, 3, 5),
             filled(3, 5),
         };
+    }
+
+    /**
+     * Of the squares with the numbers 1 to 9, each once, one for each set of lines, of the rows, the columns and the two
+     * DIAGONALS, that can sum to other than 15: the first of them is magic.
+     */
+    static List<int[][]> threes() {
+        int[][][] bySet = new int[256][][];
+        sortBySet(new int[9], 0, bySet);
+        List<int[][]> threes = new ArrayList<>();
+        for (int[][] square : bySet) {
+            if (square != null) {
+                threes.add(square);
+            }
+        }
+        return threes;
+    }
+
+    private static void sortBySet(int[] numbers, int place, int[][][] bySet) {
+        if (place == 9) {
+            int[][] square = square(3, numbers);
+            int set = 0;
+            for (int line = 0; line < 3; line++) {
+                set += (Naive.sum(square, 0, line) == 15 ? 0 : 1 << line) + (Naive.sum(square, 1, line) == 15 ? 0 : 8 << line);
+            }
+            set += (Naive.sum(square, 2, 0) == 15 ? 0 : 64) + (Naive.sum(square, 3, 2) == 15 ? 0 : 128);
+            bySet[set] = bySet[set] == null ? square : bySet[set];
+            return;
+        }
+        for (int number = 1; number <= 9; number++) {
+            int wanted = number;
+            if (Arrays.stream(numbers, 0, place).noneMatch(there -> there == wanted)) {
+                numbers[place] = number;
+                sortBySet(numbers, place + 1, bySet);
+            }
+        }
     }
 
     /** The first so many points are EMPTY. */

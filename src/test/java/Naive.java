@@ -441,7 +441,8 @@ final class Naive {
                 if (isTold) {
                     long[] line = new long[n * n];
                     for (int i = 0; i < n; i++) {
-                        int p = kind == 0 ? n * k + i : kind == 1 ? n * i + k : kind == 2 ? n * i + mod(k + i, n) : n * i + mod(k - i, n);
+                        int p = kind == 0 ? n * k + i : kind == 1 ? n * i + k
+                            : kind == 2 ? n * i + mod(k + i, n) : n * i + mod(k - i, n);
                         line[p]++;
                     }
                     lines.add(line);

@@ -30,7 +30,8 @@ public final class Promise02SquareTest {
 
     private static void aNinthIsRefused() {
         for (int side : new int[] {1, 9}) {
-            Edges.adds(CALL + "7 leave room for the SIDE " + side, Halls.empty(side), Halls.laid(Halls.forms(7)), hall -> hall.square(side));
+            Edges.adds(CALL + "7 leave room for the SIDE " + side, Halls.empty(side), Halls.laid(Halls.forms(7)),
+                hall -> hall.square(side));
             Edges.refuses(CALL + "a ninth of the SIDE " + side, Check.ISE, Halls.laid(Halls.forms(8)), hall -> hall.square(side));
         }
     }
@@ -43,7 +44,8 @@ public final class Promise02SquareTest {
 
     private static void aWrongSideComesAheadOfTheNinth() {
         for (int side : new int[] {Integer.MIN_VALUE, -1, 0, 10, Integer.MAX_VALUE}) {
-            Edges.refuses(CALL + "a ninth of the side " + side + ", both wrong", Check.IAE, Halls.laid(Halls.forms(8)), hall -> hall.square(side));
+            Edges.refuses(CALL + "a ninth of the side " + side + ", both wrong", Check.IAE, Halls.laid(Halls.forms(8)),
+                hall -> hall.square(side));
         }
     }
 

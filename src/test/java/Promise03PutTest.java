@@ -7,7 +7,10 @@ public final class Promise03PutTest {
         Edges.noSuchPoint(CALL, (hall, row, column) -> hall.put(0, row, column, 1));
         Edges.eachSquare(CALL, Halls.forms(8), (hall, square) -> hall.put(square, 1, 2, 1));
         for (int side = 1; side <= 9; side++) {
-            Edges.range(CALL + "SIDE " + side + ", the number", 0, 999, Halls.laid(Halls.empty(side)), (hall, number) -> hall.put(0, 0, 0, number));
+            Edges.range(CALL + "SIDE " + side + ", the number", 0, 999, Halls.laid(Halls.empty(side)),
+                (hall, number) -> hall.put(0, 0, 0, number));
+            Edges.range(CALL + "SIDE " + side + ", full, the number", 0, 999, Halls.laid(Halls.counted(side)),
+                (hall, number) -> hall.put(0, 0, 0, number));
         }
         itTellsWhatWasThere();
         itSetsThatPointAlone();
@@ -36,8 +39,10 @@ public final class Promise03PutTest {
                 int row = p / side;
                 int column = p % side;
                 String what = CALL + "SIDE " + side + ", PLACE " + p + ", ";
-                Edges.changes(what + "999 in an EMPTY SQUARE", 0, 0, Halls.with(empty, p, 999), Halls.laid(empty), hall -> hall.put(0, row, column, 999));
-                Edges.changes(what + "EMPTY in a full SQUARE", p + 1, 0, Halls.with(full, p, 0), Halls.laid(full), hall -> hall.put(0, row, column, 0));
+                Edges.changes(what + "999 in an EMPTY SQUARE", 0, 0, Halls.with(empty, p, 999), Halls.laid(empty),
+                    hall -> hall.put(0, row, column, 999));
+                Edges.changes(what + "EMPTY in a full SQUARE", p + 1, 0, Halls.with(full, p, 0), Halls.laid(full),
+                    hall -> hall.put(0, row, column, 0));
             }
         }
     }
@@ -62,7 +67,8 @@ public final class Promise03PutTest {
             Edges.refuses(CALL + "no row -1 and the number " + number, Check.IOOBE, laid, hall -> hall.put(0, -1, 0, number));
             Edges.refuses(CALL + "no column and the number " + number, Check.IOOBE, laid, hall -> hall.put(0, 0, 3, number));
             Edges.refuses(CALL + "no column -1 and the number " + number, Check.IOOBE, laid, hall -> hall.put(0, 0, -1, number));
-            Edges.refuses(CALL + "no SQUARE in a new object and the number " + number, Check.IOOBE, LoshuHall::new, hall -> hall.put(0, 0, 0, number));
+            Edges.refuses(CALL + "no SQUARE in a new object and the number " + number, Check.IOOBE, LoshuHall::new,
+                hall -> hall.put(0, 0, 0, number));
         }
     }
 }

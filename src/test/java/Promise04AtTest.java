@@ -21,7 +21,8 @@ public final class Promise04AtTest {
             }
             int last = side - 1;
             Edges.answers(CALL + "SIDE " + side + ", the first point", 1, Halls.laid(square), asked -> asked.at(0, 0, 0));
-            Edges.answers(CALL + "SIDE " + side + ", the last point", side * side, Halls.laid(square), asked -> asked.at(0, last, last));
+            Edges.answers(CALL + "SIDE " + side + ", the last point", side * side, Halls.laid(square),
+                asked -> asked.at(0, last, last));
         }
     }
 
@@ -32,7 +33,8 @@ public final class Promise04AtTest {
             LoshuHall other = Halls.of(holed);
             for (int p = 0; p < side * side; p++) {
                 Check.due(CALL + "SIDE " + side + ", all EMPTY, PLACE " + p, LoshuHall.EMPTY, hall.at(1, p / side, p % side));
-                Check.due(CALL + "SIDE " + side + ", one EMPTY, PLACE " + p, holed[p / side][p % side], other.at(0, p / side, p % side));
+                Check.due(CALL + "SIDE " + side + ", one EMPTY, PLACE " + p, holed[p / side][p % side],
+                    other.at(0, p / side, p % side));
             }
         }
     }

@@ -93,9 +93,11 @@ public final class Promise06LawsTest {
     }
 
     private static void brokenDiagonalsOfBothSorts() {
-        lawsAre("DIAGONALS, those down to the left, not those down to the right", FULL | ROWS | COLUMNS | DIAGONALS | OPPOSITE | POWERS,
+        lawsAre("DIAGONALS, those down to the left, not those down to the right",
+            FULL | ROWS | COLUMNS | DIAGONALS | OPPOSITE | POWERS,
             striped(3, new int[] {2, 1, 3}, true));
-        lawsAre("DIAGONALS, those down to the right, not those down to the left", FULL | ROWS | COLUMNS | DIAGONALS | OPPOSITE | POWERS,
+        lawsAre("DIAGONALS, those down to the right, not those down to the left",
+            FULL | ROWS | COLUMNS | DIAGONALS | OPPOSITE | POWERS,
             striped(3, new int[] {1, 3, 2}, false));
         lawsAre("BROKEN", FULL | ROWS | COLUMNS | DIAGONALS | BROKEN | NORMAL, Halls.brokenFour());
         for (int side = 3; side <= 9; side += 2) {
@@ -105,9 +107,11 @@ public final class Promise06LawsTest {
                 numbers[one]++;
                 numbers[one % (side - 1) + 1]--;
                 int[][] right = striped(side, numbers, true);
-                Check.due(CALL + "BROKEN fails, SIDE " + side + ", down to the right, k " + one, 0, Halls.of(right).laws(0) & BROKEN);
+                Check.due(CALL + "BROKEN fails, SIDE " + side + ", down to the right, k " + one, 0,
+                    Halls.of(right).laws(0) & BROKEN);
                 int[][] left = Naive.flipped(right);
-                Check.due(CALL + "BROKEN fails, SIDE " + side + ", down to the left, k " + one, 0, Halls.of(left).laws(0) & BROKEN);
+                Check.due(CALL + "BROKEN fails, SIDE " + side + ", down to the left, k " + one, 0,
+                    Halls.of(left).laws(0) & BROKEN);
                 Check.due(CALL + "DIAGONALS hold, SIDE " + side + ", k " + one, DIAGONALS, Halls.of(left).laws(0) & DIAGONALS);
             }
         }
@@ -151,7 +155,8 @@ public final class Promise06LawsTest {
         for (int side = 2; side <= 9; side++) {
             int[][] latin = Halls.latin(side, 1);
             Check.due(CALL + "POWERS, SIDE " + side, POWERS, Halls.of(latin).laws(0) & POWERS);
-            Check.due(CALL + "POWERS of the highest numbers, SIDE " + side, POWERS, Halls.of(Halls.filled(side, 999)).laws(0) & POWERS);
+            Check.due(CALL + "POWERS of the highest numbers, SIDE " + side, POWERS,
+                Halls.of(Halls.filled(side, 999)).laws(0) & POWERS);
             for (int p = 0; p < side * side; p++) {
                 int[][] lowered = Halls.with(Halls.filled(side, 999), p, 998);
                 Check.due(CALL + "POWERS fail, SIDE " + side + ", PLACE " + p, 0, Halls.of(lowered).laws(0) & POWERS);

@@ -10,6 +10,7 @@ public final class Promise08ChangeTest {
         severalAreWrong();
         ofNineNumbers();
         eachChangeAtEachSide();
+        shiftsGoRoundTheEdges();
         byNothing();
         allEmptyAndAllAlike();
         pointsAreCounted();
@@ -25,9 +26,11 @@ public final class Promise08ChangeTest {
     }
 
     private static void changesTo(String what, int[][] square, int change, int by, int points, int[][] due) {
-        Edges.changes(CALL + NAMES[change] + " of " + by + ", " + what, points, 1, due, Halls.laid(Halls.latin(4, 1), square, Halls.latin(5, 2)),
+        Edges.changes(CALL + NAMES[change] + " of " + by + ", " + what, points, 1, due,
+            Halls.laid(Halls.latin(4, 1), square, Halls.latin(5, 2)),
             hall -> hall.change(1, change, by));
-        Check.due(CALL + NAMES[change] + " of " + by + ", " + what + ", by the second reading", points, Naive.differing(square, due));
+        Check.due(CALL + NAMES[change] + " of " + by + ", " + what + ", by the second reading", points,
+            Naive.differing(square, due));
     }
 
     private static void squaresAreAskedByTheirNumbers() {
@@ -39,7 +42,8 @@ public final class Promise08ChangeTest {
             int[][][] forms = Halls.forms(8);
             for (int square : new int[] {0, 6, 7}) {
                 int[][] due = Naive.changed(forms[square], c, by[c]);
-                Edges.changes(CALL + NAMES[c] + " of the SQUARE " + square + " of 8", Naive.differing(forms[square], due), square, due,
+                Edges.changes(CALL + NAMES[c] + " of the SQUARE " + square + " of 8", Naive.differing(forms[square], due),
+                    square, due,
                     Halls.laid(forms), hall -> hall.change(square, c, by[c]));
             }
         }
@@ -51,8 +55,10 @@ public final class Promise08ChangeTest {
             Edges.range(CALL + "SIDE " + side + ", the change", 0, 5, laid, (hall, change) -> hall.change(0, change, 0));
             for (int change = 0; change < 6; change++) {
                 int c = change;
-                Edges.range(CALL + "SIDE " + side + ", " + NAMES[c] + " by", 0, mostBy(c, side), laid, (hall, by) -> hall.change(0, c, by));
-                Edges.range(CALL + "SIDE " + side + ", all EMPTY, " + NAMES[c] + " by", 0, mostBy(c, side), Halls.laid(Halls.empty(side)),
+                Edges.range(CALL + "SIDE " + side + ", " + NAMES[c] + " by", 0, mostBy(c, side), laid,
+                    (hall, by) -> hall.change(0, c, by));
+                Edges.range(CALL + "SIDE " + side + ", all EMPTY, " + NAMES[c] + " by", 0, mostBy(c, side),
+                    Halls.laid(Halls.empty(side)),
                     (hall, by) -> hall.change(0, c, by));
             }
         }
@@ -63,9 +69,11 @@ public final class Promise08ChangeTest {
         for (int far : FAR) {
             Edges.refuses(CALL + "no SQUARE and the change " + far, Check.IOOBE, laid, hall -> hall.change(1, far, 0));
             Edges.refuses(CALL + "no SQUARE and by " + far, Check.IOOBE, laid, hall -> hall.change(-1, LoshuHall.TURN, far));
-            Edges.refuses(CALL + "no SQUARE in a new object, the change and by " + far, Check.IOOBE, LoshuHall::new, hall -> hall.change(0, far, far));
+            Edges.refuses(CALL + "no SQUARE in a new object, the change and by " + far, Check.IOOBE, LoshuHall::new,
+                hall -> hall.change(0, far, far));
             Edges.refuses(CALL + "the change and by " + far, Check.IAE, laid, hall -> hall.change(0, far, far));
-            Edges.refuses(CALL + "no SQUARE and COMPLEMENT of " + far, Check.IOOBE, laid, hall -> hall.change(1, LoshuHall.COMPLEMENT, far));
+            Edges.refuses(CALL + "no SQUARE and COMPLEMENT of " + far, Check.IOOBE, laid,
+                hall -> hall.change(1, LoshuHall.COMPLEMENT, far));
             Edges.refuses(CALL + "COMPLEMENT of " + far + ", by which numbers would be out of their range too", Check.IAE, laid,
                 hall -> hall.change(0, LoshuHall.COMPLEMENT, far));
         }
@@ -93,8 +101,10 @@ public final class Promise08ChangeTest {
         nineNumbersTo(LoshuHall.PAIRS, 1, 0, 1, 2, 3, 4, 5, 6, 7, 8, 0);
         nineNumbersTo(LoshuHall.PAIRS, 2, 8, 0, 8, 7, 6, 5, 4, 3, 2, 1);
         int[][] sixteen = Halls.counted(4);
-        changesTo("the outer ones of the SIDE 4", sixteen, LoshuHall.PAIRS, 0, 12, Halls.square(4, 16, 14, 15, 13, 8, 6, 7, 5, 12, 10, 11, 9, 4, 2, 3, 1));
-        changesTo("the inner ones of the SIDE 4", sixteen, LoshuHall.PAIRS, 2, 12, Halls.square(4, 1, 3, 2, 4, 9, 11, 10, 12, 5, 7, 6, 8, 13, 15, 14, 16));
+        changesTo("the outer ones of the SIDE 4", sixteen, LoshuHall.PAIRS, 0, 12,
+            Halls.square(4, 16, 14, 15, 13, 8, 6, 7, 5, 12, 10, 11, 9, 4, 2, 3, 1));
+        changesTo("the inner ones of the SIDE 4", sixteen, LoshuHall.PAIRS, 2, 12,
+            Halls.square(4, 1, 3, 2, 4, 9, 11, 10, 12, 5, 7, 6, 8, 13, 15, 14, 16));
     }
 
     private static void nineNumbersTo(int change, int by, int points, int... due) {
@@ -111,13 +121,26 @@ public final class Promise08ChangeTest {
                     int[][] due = Naive.changed(full, change, told);
                     changesTo("SIDE " + side + ", full", full, change, told, Naive.differing(full, due), due);
                     int[][] holedDue = Naive.changed(holed, change, told);
-                    changesTo("SIDE " + side + ", corners EMPTY", holed, change, told, Naive.differing(holed, holedDue), holedDue);
+                    changesTo("SIDE " + side + ", corners EMPTY", holed, change, told, Naive.differing(holed, holedDue),
+                        holedDue);
                     if (change == LoshuHall.COMPLEMENT) {
                         break;
                     }
                 }
             }
         }
+    }
+
+    private static void shiftsGoRoundTheEdges() {
+        int[][] four = Halls.counted(4);
+        changesTo("SIDE 4: the row 0 less 3 is below 0", four, LoshuHall.DOWN, 3, 16,
+            Halls.square(4, 5, 6, 7, 8, 9, 10, 11, 12, 13, 14, 15, 16, 1, 2, 3, 4));
+        changesTo("SIDE 4: the column 0 less 3 is below 0", four, LoshuHall.RIGHT, 3, 16,
+            Halls.square(4, 2, 3, 4, 1, 6, 7, 8, 5, 10, 11, 12, 9, 14, 15, 16, 13));
+        changesTo("SIDE 4: the last row comes first", four, LoshuHall.DOWN, 1, 16,
+            Halls.square(4, 13, 14, 15, 16, 1, 2, 3, 4, 5, 6, 7, 8, 9, 10, 11, 12));
+        changesTo("SIDE 4: the last column comes first", four, LoshuHall.RIGHT, 1, 16,
+            Halls.square(4, 4, 1, 2, 3, 8, 5, 6, 7, 12, 9, 10, 11, 16, 13, 14, 15));
     }
 
     private static void byNothing() {
@@ -159,7 +182,8 @@ public final class Promise08ChangeTest {
         changesTo("one in place of none, none in place of one", square, LoshuHall.TURN, 1, 2, Halls.square(2, 0, 1, 0, 0));
         changesTo("one in place of none, none in place of one", square, LoshuHall.DOWN, 1, 2, Halls.square(2, 0, 0, 1, 0));
         changesTo("one in place of none, none in place of one", square, LoshuHall.PAIRS, 1, 2, Halls.square(2, 0, 0, 0, 1));
-        changesTo("another in place of one, none in place of one", Halls.square(2, 1, 2, 0, 0), LoshuHall.TURN, 1, 3, Halls.square(2, 0, 1, 0, 2));
+        changesTo("another in place of one, none in place of one", Halls.square(2, 1, 2, 0, 0), LoshuHall.TURN, 1, 3,
+            Halls.square(2, 0, 1, 0, 2));
         changesTo("some become what was there", Halls.square(2, 1, 1, 2, 2), LoshuHall.TURN, 1, 2, Halls.square(2, 2, 1, 2, 1));
     }
 
@@ -168,7 +192,8 @@ public final class Promise08ChangeTest {
     }
 
     private static void complementFails(int by, int... numbers) {
-        Edges.refuses(CALL + "COMPLEMENT of " + by + " of " + java.util.Arrays.toString(numbers), Check.ISE, Halls.laid(Halls.square(2, numbers)),
+        Edges.refuses(CALL + "COMPLEMENT of " + by + " of " + java.util.Arrays.toString(numbers), Check.ISE,
+            Halls.laid(Halls.square(2, numbers)),
             hall -> hall.change(0, LoshuHall.COMPLEMENT, by));
     }
 
@@ -193,9 +218,11 @@ public final class Promise08ChangeTest {
         for (int side = 1; side <= 9; side++) {
             for (int p : new int[] {0, side * side / 2, side * side - 1}) {
                 Halls.Laid low = Halls.laid(Halls.with(Halls.filled(side, 5), p, 10), Halls.filled(side, 5));
-                Edges.refuses(CALL + "COMPLEMENT, SIDE " + side + ", below 1 at " + p + " alone", Check.ISE, low, hall -> hall.change(0, LoshuHall.COMPLEMENT, 10));
+                Edges.refuses(CALL + "COMPLEMENT, SIDE " + side + ", below 1 at " + p + " alone", Check.ISE, low,
+                    hall -> hall.change(0, LoshuHall.COMPLEMENT, 10));
                 Halls.Laid high = Halls.laid(Halls.with(Halls.filled(side, 505), p, 1), Halls.filled(side, 505));
-                Edges.refuses(CALL + "COMPLEMENT, SIDE " + side + ", above 999 at " + p + " alone", Check.ISE, high, hall -> hall.change(0, LoshuHall.COMPLEMENT, 1001));
+                Edges.refuses(CALL + "COMPLEMENT, SIDE " + side + ", above 999 at " + p + " alone", Check.ISE, high,
+                    hall -> hall.change(0, LoshuHall.COMPLEMENT, 1001));
             }
         }
     }
@@ -209,8 +236,10 @@ public final class Promise08ChangeTest {
             int[][] a = draw.square(side, 1 + draw.below(999), 6);
             int[][] due = Naive.changed(a, change, by);
             LoshuHall hall = Halls.of(a);
-            Check.due(CALL + "a drawn SQUARE, " + NAMES[change] + " of " + by, Naive.differing(a, due), hall.change(0, change, by));
-            Check.due(CALL + "a drawn SQUARE, " + NAMES[change] + " of " + by + ", points that differ", 0, Naive.differing(due, Halls.read(hall, 0, side)));
+            Check.due(CALL + "a drawn SQUARE, " + NAMES[change] + " of " + by, Naive.differing(a, due),
+                hall.change(0, change, by));
+            Check.due(CALL + "a drawn SQUARE, " + NAMES[change] + " of " + by + ", points that differ", 0,
+                Naive.differing(due, Halls.read(hall, 0, side)));
         }
     }
 }

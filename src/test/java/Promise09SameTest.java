@@ -31,7 +31,8 @@ public final class Promise09SameTest {
             for (int one = 0; one < count; one++) {
                 for (int other = 0; other < count; other++) {
                     boolean due = (one % 4 == 3) == (other % 4 == 3);
-                    Check.due(CALL + one + " and " + other + " of " + count, Check.bit(due), Check.bit(laid.hall().same(one, other)));
+                    Check.due(CALL + one + " and " + other + " of " + count, Check.bit(due),
+                        Check.bit(laid.hall().same(one, other)));
                 }
             }
         }
@@ -41,7 +42,8 @@ public final class Promise09SameTest {
         for (int side = 1; side <= 9; side++) {
             int[][][] squares = {Halls.counted(side), Halls.empty(side), Halls.with(Halls.counted(side), side - 1, 0)};
             for (int[][] square : squares) {
-                Edges.answers(CALL + "SIDE " + side + ", one with itself", 1, Halls.laid(square), hall -> Check.bit(hall.same(0, 0)));
+                Edges.answers(CALL + "SIDE " + side + ", one with itself", 1, Halls.laid(square),
+                    hall -> Check.bit(hall.same(0, 0)));
             }
         }
     }
@@ -63,7 +65,8 @@ public final class Promise09SameTest {
             for (int other = 1; other <= 9; other++) {
                 boolean due = one == other;
                 areKin("the SIDES " + one + " and " + other + ", all EMPTY", due, Halls.empty(one), Halls.empty(other));
-                areKin("the SIDES " + one + " and " + other + ", the first number alone", due, Halls.with(Halls.empty(one), 0, 1), Halls.with(Halls.empty(other), 0, 1));
+                areKin("the SIDES " + one + " and " + other + ", the first number alone", due,
+                    Halls.with(Halls.empty(one), 0, 1), Halls.with(Halls.empty(other), 0, 1));
             }
         }
     }
@@ -86,7 +89,8 @@ public final class Promise09SameTest {
     private static void emptyPointsAreHeldToo() {
         areKin("EMPTY and a number", false, Halls.empty(1), Halls.filled(1, 1));
         areKin("one number at a corner and at another", true, Halls.square(2, 5, 0, 0, 0), Halls.square(2, 0, 0, 5, 0));
-        areKin("one number at a corner and in the middle", false, Halls.square(3, 5, 0, 0, 0, 0, 0, 0, 0, 0), Halls.square(3, 0, 0, 0, 0, 5, 0, 0, 0, 0));
+        areKin("one number at a corner and in the middle", false, Halls.square(3, 5, 0, 0, 0, 0, 0, 0, 0, 0),
+            Halls.square(3, 0, 0, 0, 0, 5, 0, 0, 0, 0));
         areKin("one number more", false, Halls.square(2, 5, 0, 0, 0), Halls.square(2, 5, 5, 0, 0));
     }
 

@@ -41,7 +41,8 @@ public final class Promise10LeastTest {
             for (int[][] form : Naive.forms(full)) {
                 LoshuHall hall = Halls.of(form);
                 for (int p = 0; p < side * side; p++) {
-                    Check.due(CALL + "SIDE " + side + ", a FORM of what is counted, PLACE " + p, p + 1, hall.least(0, p / side, p % side));
+                    Check.due(CALL + "SIDE " + side + ", a FORM of what is counted, PLACE " + p, p + 1,
+                        hall.least(0, p / side, p % side));
                 }
             }
         }
@@ -71,8 +72,10 @@ public final class Promise10LeastTest {
     }
 
     private static void theFirstPlaceThatDiffersDecides() {
-        leastIs("corners alike, the PLACE 1 decides", Halls.square(3, 1, 8, 1, 6, 5, 4, 1, 2, 1), Halls.square(3, 1, 2, 1, 4, 5, 6, 1, 8, 1));
-        leastIs("corners and two sides alike, the PLACE 3 decides", Halls.square(3, 1, 2, 1, 9, 5, 3, 1, 2, 1), Halls.square(3, 1, 2, 1, 3, 5, 9, 1, 2, 1));
+        leastIs("corners alike, the PLACE 1 decides", Halls.square(3, 1, 8, 1, 6, 5, 4, 1, 2, 1),
+            Halls.square(3, 1, 2, 1, 4, 5, 6, 1, 8, 1));
+        leastIs("corners and two sides alike, the PLACE 3 decides", Halls.square(3, 1, 2, 1, 9, 5, 3, 1, 2, 1),
+            Halls.square(3, 1, 2, 1, 3, 5, 9, 1, 2, 1));
         leastIs("the PLACE 2 decides", Halls.square(3, 1, 2, 9, 2, 5, 6, 3, 8, 9), Halls.square(3, 1, 2, 3, 2, 5, 8, 9, 6, 9));
         int[][] late = Halls.with(Halls.with(Halls.filled(9, 7), 30, 6), 32, 5);
         leastIs("a late PLACE decides", late, Naive.least(late));

@@ -7,7 +7,6 @@ public final class Promise13CompletionsTest {
 
     public static void main(String[] args) {
         Edges.noSuchSquare(CALL, LoshuHall::completions);
-        Edges.eachSquare(CALL, unlikeSquares(), LoshuHall::completions);
         emptySquares();
         sidesAbove4AreRefused();
         emptyPointsAbove9AreRefused();
@@ -15,13 +14,14 @@ public final class Promise13CompletionsTest {
         oneLawShort();
         numbersAboveAndTwice();
         knownCounts();
+        Edges.eachSquare(CALL, unlikeSquares(), LoshuHall::completions);
         drawnSquares();
         Check.end("Promise13CompletionsTest");
     }
 
     private static int[][][] unlikeSquares() {
-        return new int[][][] {Halls.loShu(), Halls.empty(3), Halls.empty(1), Halls.empty(2), Halls.empty(4), Halls.four(),
-            Halls.firstEmpty(Halls.loShu(), 8), Halls.with(Halls.empty(3), 0, 2)};
+        return new int[][][] {Halls.loShu(), Halls.empty(3), Halls.empty(1), Halls.filled(3, 5), Halls.empty(4), Halls.four(),
+            Halls.filled(2, 999), Halls.with(Halls.empty(3), 0, 2)};
     }
 
     private static void completionsAre(String what, int due, int[][] square) {
@@ -99,6 +99,12 @@ public final class Promise13CompletionsTest {
                 areAsRead("all but " + SHORT[i] + ", then " + count + " EMPTY", Halls.firstEmpty(squares[i], count));
             }
         }
+        int index = 0;
+        for (int[][] square : Halls.threes()) {
+            completionsAre("full and NORMAL, SIDE 3, other sums, " + index, index == 0 ? 1 : 0, square);
+            completionsAre("full and NORMAL, SIDE 3, other sums, the middle EMPTY, " + index, index == 0 ? 1 : 0, Halls.with(square, 4, 0));
+            index++;
+        }
         for (int down = 0; down < 4; down++) {
             for (int right = 0; right < 4; right++) {
                 int[][] shifted = Naive.changed(Naive.changed(Halls.four(), LoshuHall.DOWN, down), LoshuHall.RIGHT, right);
@@ -130,8 +136,10 @@ public final class Promise13CompletionsTest {
         completionsAre("a row that sums to less than is due", 0, Halls.square(3, 8, 1, 5, 0, 0, 0, 0, 0, 0));
         completionsAre("a row that sums to more than is due", 0, Halls.square(3, 8, 1, 7, 0, 0, 0, 0, 0, 0));
         completionsAre("a row that sums to what is due with an EMPTY point", 0, Halls.square(3, 0, 0, 0, 9, 6, 0, 0, 0, 0));
-        completionsAre("SIDE 4, 9 points EMPTY, two of them", 2, Halls.square(4, 1, 0, 11, 0, 12, 0, 2, 0, 6, 0, 16, 0, 15, 0, 0, 0));
-        completionsAre("SIDE 4, 9 points EMPTY, two of them", 2, Halls.square(4, 16, 3, 0, 0, 0, 0, 11, 8, 9, 6, 0, 0, 0, 0, 14, 0));
+        completionsAre("SIDE 4, 9 points EMPTY, two of them", 2,
+            Halls.square(4, 1, 0, 11, 0, 12, 0, 2, 0, 6, 0, 16, 0, 15, 0, 0, 0));
+        completionsAre("SIDE 4, 9 points EMPTY, two of them", 2,
+            Halls.square(4, 16, 3, 0, 0, 0, 0, 11, 8, 9, 6, 0, 0, 0, 0, 14, 0));
     }
 
     private static void drawnSquares() {

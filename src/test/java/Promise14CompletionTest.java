@@ -8,6 +8,7 @@ public final class Promise14CompletionTest {
         Edges.noSuchSquare(CALL, (hall, square) -> hall.completion(square, 0, 0, 0));
         Edges.noSuchPoint(CALL, (hall, row, column) -> hall.completion(0, 0, row, column));
         Edges.eachSquare(CALL, Halls.forms(8), (hall, square) -> hall.completion(square, 0, 0, 1));
+        Edges.eachSquare(CALL, unlikeSquares(), (hall, square) -> hall.completion(square, 1, 0, 0));
         pointsOfSmallSidesAreThere();
         theEightOfTheSide3InOrder();
         thoseThatAreNot();
@@ -18,6 +19,11 @@ public final class Promise14CompletionTest {
         noneEmpty();
         drawnSquares();
         Check.end("Promise14CompletionTest");
+    }
+
+    private static int[][][] unlikeSquares() {
+        return new int[][][] {Halls.loShu(), Halls.empty(3), Halls.empty(1), Halls.filled(3, 5), Halls.empty(4), Halls.four(),
+            Halls.filled(2, 999), Halls.with(Halls.empty(3), 0, 4)};
     }
 
     private static void isTold(String what, int due, int[][] square, int which, int place) {
@@ -61,7 +67,8 @@ public final class Promise14CompletionTest {
         int highest = Integer.MAX_VALUE;
         for (int which : new int[] {8, 9, 1000000, highest - 1, highest}) {
             isTold("no number " + which + " of 8", LoshuHall.NONE, Halls.empty(3), which, 0);
-            isTold("no number " + which + " of 8, the middle that all have", LoshuHall.NONE, Halls.with(Halls.empty(3), 4, 5), which, 4);
+            isTold("no number " + which + " of 8, the middle that all have", LoshuHall.NONE,
+                Halls.with(Halls.empty(3), 4, 5), which, 4);
         }
         for (int which : new int[] {1, 2, highest}) {
             isTold("no number " + which + " of 1, SIDE 1", LoshuHall.NONE, Halls.empty(1), which, 0);
@@ -69,7 +76,8 @@ public final class Promise14CompletionTest {
         }
         for (int which : new int[] {0, 1, highest}) {
             isTold("no number " + which + " of none, SIDE 2", LoshuHall.NONE, Halls.empty(2), which, 3);
-            isTold("no number " + which + " of none, a point that is not EMPTY", LoshuHall.NONE, Halls.with(Halls.empty(3), 4, 4), which, 4);
+            isTold("no number " + which + " of none, a point that is not EMPTY", LoshuHall.NONE,
+                Halls.with(Halls.empty(3), 4, 4), which, 4);
             isTold("no number " + which + " of none, 999", LoshuHall.NONE, Halls.filled(1, 999), which, 0);
         }
         isTold("the only one of the EMPTY SIDE 1", 1, Halls.empty(1), 0, 0);
@@ -87,7 +95,8 @@ public final class Promise14CompletionTest {
         for (int side = 5; side <= 9; side++) {
             int last = side - 1;
             isRefused("SIDE " + side + ", no point EMPTY", Check.ISE, Halls.counted(side), 0, last, last);
-            isRefused("SIDE " + side + ", 9 points EMPTY", Check.ISE, Halls.firstEmpty(Halls.counted(side), 9), Integer.MAX_VALUE, 0, 0);
+            isRefused("SIDE " + side + ", 9 points EMPTY", Check.ISE, Halls.firstEmpty(Halls.counted(side), 9),
+                Integer.MAX_VALUE, 0, 0);
             isRefused("SIDE " + side + ", all EMPTY", Check.ISE, Halls.empty(side), 0, 0, last);
         }
         isRefused("SIDE 5, a magic one", Check.ISE, Naive.siege(5), 0, 0, 0);
@@ -106,7 +115,8 @@ public final class Promise14CompletionTest {
         }
         for (int count = 10; count <= 16; count++) {
             isRefused("SIDE 4, the first " + count + " points EMPTY", Check.ISE, Halls.firstEmpty(full, count), 0, 3, 3);
-            isRefused("SIDE 4, the last " + count + " points EMPTY", Check.ISE, Halls.lastEmpty(full, count), Integer.MAX_VALUE, 0, 0);
+            isRefused("SIDE 4, the last " + count + " points EMPTY", Check.ISE, Halls.lastEmpty(full, count),
+                Integer.MAX_VALUE, 0, 0);
         }
     }
 
@@ -114,8 +124,10 @@ public final class Promise14CompletionTest {
         int[][] five = Halls.counted(5);
         int[][] tenEmpty = Halls.firstEmpty(Halls.four(), 10);
         for (int which : new int[] {Integer.MIN_VALUE, -1}) {
-            Edges.refuses(CALL + "no SQUARE and which " + which, Check.IOOBE, Halls.laid(Halls.loShu()), hall -> hall.completion(1, which, 0, 0));
-            Edges.refuses(CALL + "a new object and which " + which, Check.IOOBE, LoshuHall::new, hall -> hall.completion(0, which, 0, 0));
+            Edges.refuses(CALL + "no SQUARE and which " + which, Check.IOOBE, Halls.laid(Halls.loShu()),
+                hall -> hall.completion(1, which, 0, 0));
+            Edges.refuses(CALL + "a new object and which " + which, Check.IOOBE, LoshuHall::new,
+                hall -> hall.completion(0, which, 0, 0));
             isRefused("no row and which " + which, Check.IOOBE, Halls.loShu(), which, 3, 0);
             isRefused("no column and which " + which, Check.IOOBE, Halls.loShu(), which, 0, -1);
             isRefused("SIDE 5, no row and which " + which, Check.IOOBE, five, which, 5, 0);
@@ -131,6 +143,10 @@ public final class Promise14CompletionTest {
     }
 
     private static void noneEmpty() {
+        for (int[][] square : Halls.threes()) {
+            boolean isMagic = Naive.magic(square);
+            isTold("a full and NORMAL one of the SIDE 3", isMagic ? square[2][2] : LoshuHall.NONE, square, 0, 8);
+        }
         for (int[][] square : Halls.oneLawShort()) {
             isTold("a full one that is short of one law", LoshuHall.NONE, square, 0, 0);
         }
@@ -157,7 +173,8 @@ public final class Promise14CompletionTest {
             LoshuHall hall = Halls.of(square);
             for (int p = 0; p < n * n; p++) {
                 int number = which < due.size() ? due.get(which)[p / n][p % n] : LoshuHall.NONE;
-                Check.due(CALL + "drawn, number " + which + " of " + due.size() + ", PLACE " + p, number, hall.completion(0, which, p / n, p % n));
+                Check.due(CALL + "drawn, number " + which + " of " + due.size() + ", PLACE " + p, number,
+                    hall.completion(0, which, p / n, p % n));
             }
         }
     }

@@ -22,7 +22,8 @@ public final class Promise15EstimateTest {
     }
 
     private static int[][][] unlikeSquares() {
-        return new int[][][] {Halls.loShu(), Halls.with(Halls.empty(3), 4, 5), Halls.empty(1), Halls.empty(2), Halls.counted(5), Halls.four(),
+        return new int[][][] {Halls.loShu(), Halls.with(Halls.empty(3), 4, 5), Halls.empty(1), Halls.empty(2), Halls.counted(5),
+            Halls.filled(3, 5),
             Halls.square(3, 8, 1, 6, 0, 0, 0, 0, 0, 0), Halls.square(3, 0, 0, 6, 0, 5, 0, 0, 0, 2)};
     }
 
@@ -33,21 +34,26 @@ public final class Promise15EstimateTest {
 
     private static void isAsRead(String what, int[][] square) {
         for (int seed : SEEDS) {
-            Edges.answers(CALL + what + ", from " + seed, Naive.estimate(square, seed), Halls.laid(square), hall -> hall.estimate(0, seed));
+            Edges.answers(CALL + what + ", from " + seed, Naive.estimate(square, seed), Halls.laid(square),
+                hall -> hall.estimate(0, seed));
         }
     }
 
     private static void rangesAreKept() {
-        for (int[][] square : new int[][][] {Halls.empty(1), Halls.empty(2), Halls.empty(3), Halls.loShu(), Halls.empty(4), Halls.four(), Halls.filled(3, 999)}) {
-            Edges.range(CALL + "SIDE " + square.length + ", the seed", 0, 65535, Halls.laid(square), (hall, seed) -> hall.estimate(0, seed));
+        int[][][] squares = {Halls.empty(1), Halls.empty(2), Halls.empty(3), Halls.loShu(), Halls.empty(4), Halls.four(), Halls.filled(3, 999)};
+        for (int[][] square : squares) {
+            Edges.range(CALL + "SIDE " + square.length + ", the seed", 0, 65535, Halls.laid(square),
+                (hall, seed) -> hall.estimate(0, seed));
         }
     }
 
     private static void sidesAbove4AreRefused() {
         for (int side = 5; side <= 9; side++) {
             for (int seed : new int[] {0, 65535}) {
-                Edges.refuses(CALL + "SIDE " + side + ", full, from " + seed, Check.ISE, Halls.laid(Halls.counted(side)), hall -> hall.estimate(0, seed));
-                Edges.refuses(CALL + "SIDE " + side + ", EMPTY, from " + seed, Check.ISE, Halls.laid(Halls.empty(side)), hall -> hall.estimate(0, seed));
+                Edges.refuses(CALL + "SIDE " + side + ", full, from " + seed, Check.ISE, Halls.laid(Halls.counted(side)),
+                    hall -> hall.estimate(0, seed));
+                Edges.refuses(CALL + "SIDE " + side + ", EMPTY, from " + seed, Check.ISE, Halls.laid(Halls.empty(side)),
+                    hall -> hall.estimate(0, seed));
             }
         }
         Edges.refuses(CALL + "SIDE 5, a magic one", Check.ISE, Halls.laid(Naive.siege(5)), hall -> hall.estimate(0, 1));
@@ -59,7 +65,8 @@ public final class Promise15EstimateTest {
             Edges.refuses(CALL + "SIDE 5 and the seed " + seed, Check.IAE, five, hall -> hall.estimate(0, seed));
             Edges.refuses(CALL + "no SQUARE and the seed " + seed, Check.IOOBE, five, hall -> hall.estimate(1, seed));
             Edges.refuses(CALL + "no SQUARE -1 and the seed " + seed, Check.IOOBE, five, hall -> hall.estimate(-1, seed));
-            Edges.refuses(CALL + "a new object and the seed " + seed, Check.IOOBE, LoshuHall::new, hall -> hall.estimate(0, seed));
+            Edges.refuses(CALL + "a new object and the seed " + seed, Check.IOOBE, LoshuHall::new,
+                hall -> hall.estimate(0, seed));
         }
     }
 
@@ -110,6 +117,9 @@ public final class Promise15EstimateTest {
                 estimateIs("full, all but " + SHORT[i], 0, squares[i], seed);
             }
         }
+        for (int[][] square : Halls.threes()) {
+            estimateIs("full and NORMAL, SIDE 3", Naive.magic(square) ? 1 : 0, square, 65535);
+        }
         for (int p = 0; p < 16; p++) {
             estimateIs("one EMPTY point of a magic one, PLACE " + p, 1, Halls.with(Halls.four(), p, 0), 65535);
         }
@@ -127,7 +137,8 @@ public final class Promise15EstimateTest {
         isAsRead("SIDE 4, 16 twice", Halls.with(Halls.with(Halls.empty(4), 1, 16), 14, 16));
         isAsRead("SIDE 3, 5 twice, each line as is due", Halls.square(3, 5, 5, 5, 5, 5, 5, 5, 5, 0));
         for (int p = 1; p < 15; p++) {
-            estimateIs("SIDE 4, EMPTY behind the PLACE " + p + ", where 16 is again", 0, Halls.with(Halls.with(Halls.four(), p, 16), p + 1, 0), 7);
+            estimateIs("SIDE 4, EMPTY behind the PLACE " + p + ", where 16 is again", 0,
+                Halls.with(Halls.with(Halls.four(), p, 16), p + 1, 0), 7);
         }
     }
 
@@ -151,7 +162,8 @@ public final class Promise15EstimateTest {
         int[][] fours = {{16, 15, 2, 1}, {16, 3, 2, 13}, {16, 3, 2, 12}, {16, 3, 2, 14}};
         for (int line = 0; line < 10; line++) {
             for (int[] four : fours) {
-                isAsRead("SIDE 4, the line " + line + " sums to " + (four[0] + four[1] + four[2] + four[3]), onLine(4, line, four));
+                isAsRead("SIDE 4, the line " + line + " sums to " + (four[0] + four[1] + four[2] + four[3]),
+                    onLine(4, line, four));
             }
         }
     }
@@ -160,13 +172,15 @@ public final class Promise15EstimateTest {
         int[][] threes = {{8, 6, 0}, {9, 6, 0}, {9, 7, 0}, {6, 0, 8}, {6, 0, 9}, {0, 8, 7}, {0, 5, 9}, {8, 1, 0}, {0, 5, 8}, {4, 0, 2}};
         for (int line = 0; line < 8; line++) {
             for (int[] three : threes) {
-                isAsRead("SIDE 3, the line " + line + " with an EMPTY point sums to " + (three[0] + three[1] + three[2]), onLine(3, line, three));
+                isAsRead("SIDE 3, the line " + line + " with an EMPTY point sums to " + (three[0] + three[1] + three[2]),
+                    onLine(3, line, three));
             }
         }
         int[][] fours = {{16, 15, 2, 0}, {16, 15, 3, 0}, {16, 15, 4, 0}, {0, 16, 15, 3}, {16, 0, 0, 15}};
         for (int line = 0; line < 10; line++) {
             for (int[] four : fours) {
-                isAsRead("SIDE 4, the line " + line + " with an EMPTY point sums to " + (four[0] + four[1] + four[2] + four[3]), onLine(4, line, four));
+                int sum = four[0] + four[1] + four[2] + four[3];
+                isAsRead("SIDE 4, the line " + line + " with an EMPTY point sums to " + sum, onLine(4, line, four));
             }
         }
     }

@@ -6,7 +6,7 @@ public final class Promise16GivensTest {
     public static void main(String[] args) {
         Edges.noSuchSquare(CALL + "how many, ", (hall, square) -> hall.givens(square, false));
         Edges.noSuchSquare(CALL + "the set, ", (hall, square) -> hall.givens(square, true));
-        Edges.eachSquare(CALL, Halls.forms(8), (hall, square) -> hall.givens(square, true));
+        Edges.eachSquare(CALL, unlikeSquares(), (hall, square) -> hall.givens(square, true));
         side1();
         side2();
         side3();
@@ -14,6 +14,15 @@ public final class Promise16GivensTest {
         whatIsNoCompletionOfItselfIsRefused();
         theSetLeavesOneCompletion();
         Check.end("Promise16GivensTest");
+    }
+
+    private static int[][][] unlikeSquares() {
+        int[][][] squares = Halls.forms(8);
+        squares[2] = Halls.filled(1, 1);
+        squares[4] = Halls.four();
+        squares[5] = Halls.empty(3);
+        squares[7] = Halls.filled(1, 1);
+        return squares;
     }
 
     private static void givensAre(String what, int set, int[][] square) {
@@ -60,6 +69,11 @@ public final class Promise16GivensTest {
         int[][][] squares = Halls.oneLawShort();
         for (int i = 0; i < squares.length; i++) {
             areRefused("SIDE 3, all but " + SHORT[i], squares[i]);
+        }
+        for (int[][] square : Halls.threes()) {
+            if (!Naive.magic(square)) {
+                areRefused("SIDE 3, NORMAL, of other sums", square);
+            }
         }
         areRefused("SIDE 3, EMPTY", Halls.empty(3));
         areRefused("SIDE 3, counted", Halls.counted(3));

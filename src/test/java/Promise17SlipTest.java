@@ -47,8 +47,10 @@ public final class Promise17SlipTest {
 
     private static void aMissingSquareComesAheadOfWhat() {
         for (int what : new int[] {Integer.MIN_VALUE, -1, 3, Integer.MAX_VALUE}) {
-            Edges.refuses(CALL + "no SQUARE and what " + what, Check.IOOBE, Halls.laid(Halls.loShu()), hall -> hall.slip(1, what));
-            Edges.refuses(CALL + "no SQUARE -1 and what " + what, Check.IOOBE, Halls.laid(Halls.loShu()), hall -> hall.slip(-1, what));
+            Edges.refuses(CALL + "no SQUARE and what " + what, Check.IOOBE, Halls.laid(Halls.loShu()),
+                hall -> hall.slip(1, what));
+            Edges.refuses(CALL + "no SQUARE -1 and what " + what, Check.IOOBE, Halls.laid(Halls.loShu()),
+                hall -> hall.slip(-1, what));
             Edges.refuses(CALL + "a new object and what " + what, Check.IOOBE, LoshuHall::new, hall -> hall.slip(0, what));
         }
     }
@@ -62,7 +64,8 @@ public final class Promise17SlipTest {
 
     private static void eachPlaceIsMended() {
         for (int side = 2; side <= 9; side++) {
-            int[][] magic = side == 2 ? Halls.filled(2, 7) : side == 4 ? Halls.four() : side % 2 == 1 ? Naive.siege(side) : Halls.filled(side, side);
+            int[][] magic = side == 2 ? Halls.filled(2,
+                7) : side == 4 ? Halls.four() : side % 2 == 1 ? Naive.siege(side) : Halls.filled(side, side);
             for (int p = 0; p < side * side; p++) {
                 int number = magic[p / side][p % side];
                 slipsAre("SIDE " + side + ", 999 at " + p, 1, p, number, Halls.with(magic, p, 999));
@@ -88,7 +91,8 @@ public final class Promise17SlipTest {
         for (int side = 2; side <= 9; side++) {
             none("SIDE " + side + ", all EMPTY", Halls.empty(side));
             for (int p : new int[] {0, side - 1, side * side - 1}) {
-                none("SIDE " + side + ", EMPTY but for " + p + ": EMPTY is no number of a SLIP", Halls.with(Halls.empty(side), p, 5));
+                none("SIDE " + side + ", EMPTY but for " + p + ": EMPTY is no number of a SLIP",
+                    Halls.with(Halls.empty(side), p, 5));
             }
         }
         slipsAre("EMPTY points that stay are 0", 1, 8, 2, Halls.square(3, 2, 4, 0, 0, 2, 4, 4, 0, 0));
@@ -102,9 +106,38 @@ public final class Promise17SlipTest {
         slipsAre("1 in place of 999", 1, 2, 1, Halls.square(2, 1, 1, 999, 1));
         slipsAre("1 in place of EMPTY", 1, 3, 1, Halls.square(2, 1, 1, 1, 0));
         none("0 would be needed", Halls.square(2, 0, 0, 7, 0));
-        none("1000 would be needed in the middle", Halls.square(3, 999, 1, 500, 1, 0, 999, 500, 499, 1));
-        int[][] high = {{999, 1, 998}, {0, 0, 0}, {0, 0, 0}};
-        none("1000 and more would be needed", high);
+        for (int side = 3; side <= 9; side += 2) {
+            int most = side * side / 2;
+            needed("SIDE " + side + ", 1 is needed", true, spread(side, 10 * most + 1), 1);
+            needed("SIDE " + side + ", 0 would be needed", false, spread(side, 10 * most), 0);
+            needed("SIDE " + side + ", 999 is needed", true, spread(side, 999 - 10 * most), 999);
+            needed("SIDE " + side + ", 1000 would be needed", false, spread(side, 1000 - 10 * most), 1000);
+            needed("SIDE " + side + ", 1009 would be needed", false, spread(side, 1009 - 10 * most), 1009);
+        }
+    }
+
+    /** Magic: what SIEGE makes, ten times as far apart, and round another middle. */
+    private static int[][] spread(int side, int middle) {
+        int[][] square = Naive.siege(side);
+        for (int[] row : square) {
+            for (int c = 0; c < side; c++) {
+                row[c] = 10 * (row[c] - side * side / 2 - 1) + middle;
+            }
+        }
+        return square;
+    }
+
+    /** The one point that has the number in a magic square has another one. */
+    private static void needed(String what, boolean isSlip, int[][] magic, int number) {
+        int side = magic.length;
+        for (int[][] form : Naive.forms(magic)) {
+            for (int p = 0; p < side * side; p++) {
+                if (form[p / side][p % side] == number) {
+                    int[][] square = Halls.with(form, p, 77);
+                    slipsAre(what, isSlip ? 1 : 0, isSlip ? p : LoshuHall.NONE, isSlip ? number : LoshuHall.NONE, square);
+                }
+            }
+        }
     }
 
     private static void eachLawIsNeeded() {
@@ -115,6 +148,16 @@ public final class Promise17SlipTest {
             for (int p = 0; p < 9; p++) {
                 none("short of one law, " + i + ", and 900 at " + p, Halls.with(squares[i], p, 900));
             }
+        }
+        for (int[][] form : Naive.forms(Halls.square(4, 10, 10, 10, 10, 10, 10, 10, 10, 11, 11, 10, 10, 9, 9, 10, 10))) {
+            for (int p = 0; p < 16; p++) {
+                none("SIDE 4, two rows, or two columns, alone are short, and 500 at " + p, Halls.with(form, p, 500));
+                none("SIDE 4, two rows, or two columns, alone are short, and EMPTY at " + p, Halls.with(form, p, 0));
+            }
+        }
+        for (int[][] square : Halls.threes()) {
+            int[] due = Naive.slips(square);
+            slipsAre("NORMAL, SIDE 3", due[0], due[1], due[2], square);
         }
         none("rows and columns can be mended, not the DIAGONALS", Halls.square(3, 1, 2, 3, 2, 3, 1, 3, 1, 9));
         none("SIDE 2, DIAGONALS and rows, not the columns", Halls.square(2, 1, 2, 1, 2));

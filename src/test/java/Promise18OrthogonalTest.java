@@ -31,7 +31,8 @@ public final class Promise18OrthogonalTest {
             for (int one = 0; one < count; one++) {
                 for (int other = 0; other < count; other++) {
                     LoshuHall hall = Halls.of(java.util.Arrays.copyOf(squares, count));
-                    Check.due(CALL + one + " and " + other + " of " + count, (one + other) % 2, Check.bit(hall.orthogonal(one, other)));
+                    Check.due(CALL + one + " and " + other + " of " + count, (one + other) % 2,
+                        Check.bit(hall.orthogonal(one, other)));
                 }
             }
         }
@@ -49,7 +50,8 @@ public final class Promise18OrthogonalTest {
                 }
             }
         }
-        Edges.refuses(CALL + "unlike SIDES, all EMPTY", Check.ISE, Halls.laid(Halls.empty(2), Halls.empty(3)), hall -> Check.bit(hall.orthogonal(0, 1)));
+        Edges.refuses(CALL + "unlike SIDES, all EMPTY", Check.ISE, Halls.laid(Halls.empty(2), Halls.empty(3)),
+            hall -> Check.bit(hall.orthogonal(0, 1)));
     }
 
     private static void latinOnes() {
@@ -65,17 +67,22 @@ public final class Promise18OrthogonalTest {
 
     private static void oneWithItself() {
         for (int side = 1; side <= 9; side++) {
-            Edges.answers(CALL + "a NORMAL one with itself, SIDE " + side, 1, Halls.laid(Halls.counted(side)), hall -> Check.bit(hall.orthogonal(0, 0)));
-            Edges.answers(CALL + "an EMPTY one with itself, SIDE " + side, side == 1 ? 1 : 0, Halls.laid(Halls.empty(side)), hall -> Check.bit(hall.orthogonal(0, 0)));
-            Edges.answers(CALL + "a Latin one with itself, SIDE " + side, side == 1 ? 1 : 0, Halls.laid(Halls.latin(side, 1)), hall -> Check.bit(hall.orthogonal(0, 0)));
+            Edges.answers(CALL + "a NORMAL one with itself, SIDE " + side, 1, Halls.laid(Halls.counted(side)),
+                hall -> Check.bit(hall.orthogonal(0, 0)));
+            Edges.answers(CALL + "an EMPTY one with itself, SIDE " + side, side == 1 ? 1 : 0, Halls.laid(Halls.empty(side)),
+                hall -> Check.bit(hall.orthogonal(0, 0)));
+            Edges.answers(CALL + "a Latin one with itself, SIDE " + side, side == 1 ? 1 : 0,
+                Halls.laid(Halls.latin(side, 1)), hall -> Check.bit(hall.orthogonal(0, 0)));
         }
     }
 
     private static void emptyIs0() {
         are("one EMPTY point", true, Halls.with(Halls.counted(3), 0, 0), Halls.filled(3, 1));
         are("two EMPTY points beside the same", false, Halls.with(Halls.with(Halls.counted(3), 0, 0), 8, 0), Halls.filled(3, 1));
-        are("two EMPTY points beside others", true, Halls.with(Halls.with(Halls.counted(3), 0, 0), 8, 0), Halls.with(Halls.filled(3, 1), 8, 2));
-        are("two EMPTY points beside EMPTY and a number", true, Halls.with(Halls.with(Halls.counted(3), 0, 0), 8, 0), Halls.with(Halls.filled(3, 1), 8, 0));
+        are("two EMPTY points beside others", true, Halls.with(Halls.with(Halls.counted(3), 0, 0), 8, 0),
+            Halls.with(Halls.filled(3, 1), 8, 2));
+        are("two EMPTY points beside EMPTY and a number", true, Halls.with(Halls.with(Halls.counted(3), 0, 0), 8, 0),
+            Halls.with(Halls.filled(3, 1), 8, 0));
         are("all EMPTY, SIDE 1", true, Halls.empty(1), Halls.empty(1));
         are("all EMPTY, SIDE 2", false, Halls.empty(2), Halls.empty(2));
         are("numbers that are the same the other way round", true, Halls.square(2, 1, 2, 3, 4), Halls.square(2, 2, 1, 4, 3));
@@ -89,10 +96,12 @@ public final class Promise18OrthogonalTest {
             for (int p = 0; p < last; p++) {
                 int[][] other = Halls.with(one, last, p + 1);
                 LoshuHall hall = Halls.of(other, Halls.filled(side, 9));
-                Check.due(CALL + "SIDE " + side + ", the PLACES " + p + " and " + last + " alike", 0, Check.bit(hall.orthogonal(0, 1)));
+                Check.due(CALL + "SIDE " + side + ", the PLACES " + p + " and " + last + " alike", 0,
+                    Check.bit(hall.orthogonal(0, 1)));
                 int[][] first = Halls.with(one, 0, p + 2);
                 LoshuHall second = Halls.of(first, Halls.filled(side, 9));
-                Check.due(CALL + "SIDE " + side + ", the PLACES 0 and " + (p + 1) + " alike", 0, Check.bit(second.orthogonal(1, 0)));
+                Check.due(CALL + "SIDE " + side + ", the PLACES 0 and " + (p + 1) + " alike", 0,
+                    Check.bit(second.orthogonal(1, 0)));
             }
         }
     }

@@ -36,8 +36,10 @@ public final class Promise19StackTest {
             Edges.adds(CALL + "SIDE " + side + ", the other way round", stacked(other, one), laid, hall -> hall.stack(1, 0));
             Edges.adds(CALL + "SIDE " + side + ", one with itself", stacked(other, other), laid, hall -> hall.stack(1, 1));
         }
-        Edges.adds(CALL + "an example", Halls.square(2, 1, 4, 4, 1), Halls.laid(Halls.square(2, 1, 2, 2, 1)), hall -> hall.stack(0, 0));
-        Edges.adds(CALL + "another example", Halls.square(2, 1, 2, 4, 3), Halls.laid(Halls.square(2, 1, 1, 2, 2), Halls.square(2, 1, 2, 2, 1)), hall -> hall.stack(0, 1));
+        Edges.adds(CALL + "an example", Halls.square(2, 1, 4, 4, 1), Halls.laid(Halls.square(2, 1, 2, 2, 1)),
+            hall -> hall.stack(0, 0));
+        Edges.adds(CALL + "another example", Halls.square(2, 1, 2, 4, 3),
+            Halls.laid(Halls.square(2, 1, 1, 2, 2), Halls.square(2, 1, 2, 2, 1)), hall -> hall.stack(0, 1));
     }
 
     private static void lowestAndHighestNumbers() {
@@ -45,8 +47,10 @@ public final class Promise19StackTest {
             int[][] low = Halls.filled(side, 1);
             int[][] high = Halls.filled(side, side);
             Edges.adds(CALL + "SIDE " + side + ", all 1", Halls.filled(side, 1), Halls.laid(low), hall -> hall.stack(0, 0));
-            Edges.adds(CALL + "SIDE " + side + ", all the SIDE", Halls.filled(side, side * side), Halls.laid(high), hall -> hall.stack(0, 0));
-            Edges.adds(CALL + "SIDE " + side + ", 1 and the SIDE", Halls.filled(side, side), Halls.laid(low, high), hall -> hall.stack(0, 1));
+            Edges.adds(CALL + "SIDE " + side + ", all the SIDE", Halls.filled(side, side * side), Halls.laid(high),
+                hall -> hall.stack(0, 0));
+            Edges.adds(CALL + "SIDE " + side + ", 1 and the SIDE", Halls.filled(side, side), Halls.laid(low, high),
+                hall -> hall.stack(0, 1));
         }
     }
 
@@ -63,7 +67,8 @@ public final class Promise19StackTest {
         for (int one : new int[] {0, 3, 6}) {
             for (int other = 0; other < 7; other++) {
                 int o = other;
-                Edges.adds(CALL + one + " and " + o + " of 7", stacked(squares[one], squares[o]), Halls.laid(squares), hall -> hall.stack(one, o));
+                Edges.adds(CALL + one + " and " + o + " of 7", stacked(squares[one], squares[o]), Halls.laid(squares),
+                    hall -> hall.stack(one, o));
             }
         }
     }
@@ -118,9 +123,12 @@ public final class Promise19StackTest {
         for (int missing : new int[] {Integer.MIN_VALUE, -1, 8, Integer.MAX_VALUE}) {
             Edges.refuses(CALL + "a ninth, no first " + missing, Check.IOOBE, full, hall -> hall.stack(missing, 0));
             Edges.refuses(CALL + "a ninth, no second " + missing, Check.IOOBE, full, hall -> hall.stack(0, missing));
-            Edges.refuses(CALL + "the first EMPTY, no second " + missing, Check.IOOBE, Halls.laid(Halls.empty(3)), hall -> hall.stack(0, missing));
-            Edges.refuses(CALL + "the second EMPTY, no first " + missing, Check.IOOBE, Halls.laid(Halls.empty(3)), hall -> hall.stack(missing, 0));
-            Edges.refuses(CALL + "high numbers, no second " + missing, Check.IOOBE, Halls.laid(Halls.loShu()), hall -> hall.stack(0, missing));
+            Edges.refuses(CALL + "the first EMPTY, no second " + missing, Check.IOOBE, Halls.laid(Halls.empty(3)),
+                hall -> hall.stack(0, missing));
+            Edges.refuses(CALL + "the second EMPTY, no first " + missing, Check.IOOBE, Halls.laid(Halls.empty(3)),
+                hall -> hall.stack(missing, 0));
+            Edges.refuses(CALL + "high numbers, no second " + missing, Check.IOOBE, Halls.laid(Halls.loShu()),
+                hall -> hall.stack(0, missing));
         }
     }
 }

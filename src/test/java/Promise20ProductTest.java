@@ -8,6 +8,7 @@ public final class Promise20ProductTest {
         Edges.noSuchSquare(CALL + "both, ", (hall, square) -> hall.product(square, square));
         eachTwoSides();
         examples();
+        divisionsAndRemainders();
         squaresAreAskedByTheirNumbers();
         emptyPointsAreRefused();
         numbersAbove999AreRefused();
@@ -51,20 +52,37 @@ public final class Promise20ProductTest {
         Draw draw = new Draw(20);
         for (int one = 1; one <= 9; one++) {
             for (int other = 1; one * other <= 9; other++) {
-                isProduct("drawn, the SIDES " + one + " and " + other, draw.square(one, other > 3 ? 5 : 80, 99999), draw.square(other, 81, 99999));
+                isProduct("drawn, the SIDES " + one + " and " + other, draw.square(one, other > 3 ? 5 : 80, 99999),
+                    draw.square(other, 81, 99999));
             }
         }
     }
 
     private static void examples() {
-        Edges.adds(CALL + "SIDES 2 and 1", Halls.square(2, 7, 8, 9, 10), Halls.laid(Halls.square(2, 1, 2, 3, 4), Halls.filled(1, 7)), hall -> hall.product(0, 1));
-        Edges.adds(CALL + "SIDES 1 and 2", Halls.square(2, 25, 26, 27, 28), Halls.laid(Halls.square(2, 1, 2, 3, 4), Halls.filled(1, 7)), hall -> hall.product(1, 0));
-        Edges.adds(CALL + "one with itself", Halls.square(4, 1, 2, 5, 6, 3, 4, 7, 8, 9, 10, 13, 14, 11, 12, 15, 16), Halls.laid(Halls.counted(2)), hall -> hall.product(0, 0));
-        Edges.adds(CALL + "SIEGE with itself", multiplied(Halls.loShu(), Halls.loShu()), Halls.laid(Halls.loShu()), hall -> hall.product(0, 0));
+        Edges.adds(CALL + "SIDES 2 and 1", Halls.square(2, 7, 8, 9, 10),
+            Halls.laid(Halls.square(2, 1, 2, 3, 4), Halls.filled(1, 7)), hall -> hall.product(0, 1));
+        Edges.adds(CALL + "SIDES 1 and 2", Halls.square(2, 25, 26, 27, 28),
+            Halls.laid(Halls.square(2, 1, 2, 3, 4), Halls.filled(1, 7)), hall -> hall.product(1, 0));
+        Edges.adds(CALL + "one with itself", Halls.square(4, 1, 2, 5, 6, 3, 4, 7, 8, 9, 10, 13, 14, 11, 12, 15, 16),
+            Halls.laid(Halls.counted(2)), hall -> hall.product(0, 0));
+        Edges.adds(CALL + "SIEGE with itself", multiplied(Halls.loShu(), Halls.loShu()), Halls.laid(Halls.loShu()),
+            hall -> hall.product(0, 0));
         LoshuHall hall = Halls.of(Halls.loShu());
         hall.product(0, 0);
         Check.due(CALL + "SIEGE with itself, the first point", 9 * 7 + 8, hall.at(1, 0, 0));
         Check.due(CALL + "SIEGE with itself, the laws", 111, hall.laws(1));
+    }
+
+    private static void divisionsAndRemainders() {
+        int[][] first = Halls.square(3, 11, 12, 13, 14, 15, 16, 17, 18, 19);
+        int[][] second = Halls.square(3, 1, 2, 3, 4, 5, 6, 7, 8, 9);
+        LoshuHall hall = Halls.of(first, second);
+        hall.product(0, 1);
+        Check.due(CALL + "the row 2 divided by 3 is 0, its remainder 2", 9 * 10 + 7, hall.at(2, 2, 0));
+        Check.due(CALL + "the row 3 divided by 3 is 1, its remainder 0", 9 * 13 + 1, hall.at(2, 3, 0));
+        Check.due(CALL + "the column 5 divided by 3 is 1, its remainder 2", 9 * 11 + 3, hall.at(2, 0, 5));
+        Check.due(CALL + "the column 6 divided by 3 is 2, its remainder 0", 9 * 12 + 1, hall.at(2, 0, 6));
+        Check.due(CALL + "the last row and column", 9 * 18 + 9, hall.at(2, 8, 8));
     }
 
     private static void squaresAreAskedByTheirNumbers() {
@@ -72,7 +90,8 @@ public final class Promise20ProductTest {
         for (int one : new int[] {0, 3, 6}) {
             for (int other = 0; other < 7; other++) {
                 int o = other;
-                Edges.adds(CALL + one + " and " + o + " of 7", multiplied(squares[one], squares[o]), Halls.laid(squares), hall -> hall.product(one, o));
+                Edges.adds(CALL + one + " and " + o + " of 7", multiplied(squares[one], squares[o]), Halls.laid(squares),
+                    hall -> hall.product(one, o));
             }
         }
     }
@@ -136,9 +155,12 @@ public final class Promise20ProductTest {
         for (int missing : new int[] {Integer.MIN_VALUE, -1, 8, Integer.MAX_VALUE}) {
             Edges.refuses(CALL + "a ninth, no first " + missing, Check.IOOBE, full, hall -> hall.product(missing, 0));
             Edges.refuses(CALL + "a ninth, no second " + missing, Check.IOOBE, full, hall -> hall.product(0, missing));
-            Edges.refuses(CALL + "the first EMPTY, no second " + missing, Check.IOOBE, Halls.laid(Halls.empty(3)), hall -> hall.product(0, missing));
-            Edges.refuses(CALL + "the second EMPTY, no first " + missing, Check.IOOBE, Halls.laid(Halls.empty(3)), hall -> hall.product(missing, 0));
-            Edges.refuses(CALL + "the SIDE 9 and no second " + missing, Check.IOOBE, Halls.laid(Halls.filled(9, 999)), hall -> hall.product(0, missing));
+            Edges.refuses(CALL + "the first EMPTY, no second " + missing, Check.IOOBE, Halls.laid(Halls.empty(3)),
+                hall -> hall.product(0, missing));
+            Edges.refuses(CALL + "the second EMPTY, no first " + missing, Check.IOOBE, Halls.laid(Halls.empty(3)),
+                hall -> hall.product(missing, 0));
+            Edges.refuses(CALL + "the SIDE 9 and no second " + missing, Check.IOOBE, Halls.laid(Halls.filled(9, 999)),
+                hall -> hall.product(0, missing));
         }
     }
 }

@@ -29,19 +29,24 @@ public final class Promise21CrossingsTest {
 
     private static void rangesAreKept() {
         for (int side = 1; side <= 6; side++) {
-            Edges.range(CALL + "SIDE " + side + ", full, the total", 0, 8991, Halls.laid(Halls.counted(side)), (hall, total) -> hall.crossings(0, total));
-            Edges.range(CALL + "SIDE " + side + ", EMPTY, the total", 0, 8991, Halls.laid(Halls.empty(side)), (hall, total) -> hall.crossings(0, total));
+            Edges.range(CALL + "SIDE " + side + ", full, the total", 0, 8991, Halls.laid(Halls.counted(side)),
+                (hall, total) -> hall.crossings(0, total));
+            Edges.range(CALL + "SIDE " + side + ", EMPTY, the total", 0, 8991, Halls.laid(Halls.empty(side)),
+                (hall, total) -> hall.crossings(0, total));
         }
     }
 
     private static void sidesAbove6AreRefused() {
         for (int side = 7; side <= 9; side++) {
             for (int total : new int[] {0, 1, 8991}) {
-                Edges.refuses(CALL + "SIDE " + side + ", full, the total " + total, Check.ISE, Halls.laid(Halls.filled(side, 999)), hall -> hall.crossings(0, total));
-                Edges.refuses(CALL + "SIDE " + side + ", EMPTY, the total " + total, Check.ISE, Halls.laid(Halls.empty(side)), hall -> hall.crossings(0, total));
+                Edges.refuses(CALL + "SIDE " + side + ", full, the total " + total, Check.ISE,
+                    Halls.laid(Halls.filled(side, 999)), hall -> hall.crossings(0, total));
+                Edges.refuses(CALL + "SIDE " + side + ", EMPTY, the total " + total, Check.ISE,
+                    Halls.laid(Halls.empty(side)), hall -> hall.crossings(0, total));
             }
         }
-        crossingsAre("SIDE 6 is counted", 1, Halls.with(Halls.with(Halls.with(Halls.with(Halls.with(Halls.with(Halls.empty(6), 0, 1), 7, 2), 14, 4), 21, 8), 28, 16), 35, 32), 63);
+        crossingsAre("SIDE 6 is counted", 1,
+            Halls.square(6, 1, 0, 0, 0, 0, 0, 0, 2, 0, 0, 0, 0, 0, 0, 4, 0, 0, 0, 0, 0, 0, 8, 0, 0, 0, 0, 0, 0, 16, 0, 0, 0, 0, 0, 0, 32), 63);
     }
 
     private static void severalAreWrong() {
@@ -50,7 +55,8 @@ public final class Promise21CrossingsTest {
             Edges.refuses(CALL + "SIDE 7 and the total " + total, Check.IAE, seven, hall -> hall.crossings(0, total));
             Edges.refuses(CALL + "no SQUARE and the total " + total, Check.IOOBE, seven, hall -> hall.crossings(1, total));
             Edges.refuses(CALL + "no SQUARE -1 and the total " + total, Check.IOOBE, seven, hall -> hall.crossings(-1, total));
-            Edges.refuses(CALL + "a new object and the total " + total, Check.IOOBE, LoshuHall::new, hall -> hall.crossings(0, total));
+            Edges.refuses(CALL + "a new object and the total " + total, Check.IOOBE, LoshuHall::new,
+                hall -> hall.crossings(0, total));
         }
     }
 

@@ -35,17 +35,20 @@ public final class Promise22DimensionTest {
             Edges.refuses(CALL + "the side " + side, Check.IAE, LoshuHall::new, hall -> hall.dimension(side, 0));
         }
         for (int far : new int[] {Integer.MIN_VALUE, -1, 0, 7, Integer.MAX_VALUE}) {
-            Edges.refuses(CALL + "the side " + far + " and the law FULL", Check.IAE, LoshuHall::new, hall -> hall.dimension(far, LoshuHall.FULL));
+            Edges.refuses(CALL + "the side " + far + " and the law FULL", Check.IAE, LoshuHall::new,
+                hall -> hall.dimension(far, LoshuHall.FULL));
         }
     }
 
     private static void lawsThatAreNotToldAreRefused() {
-        int[] wrong = {LoshuHall.FULL, LoshuHall.NORMAL, LoshuHall.POWERS, ALL | LoshuHall.FULL, ALL | LoshuHall.NORMAL, ALL | LoshuHall.POWERS,
+        int[] wrong = {LoshuHall.FULL, LoshuHall.NORMAL, LoshuHall.POWERS, ALL | LoshuHall.FULL, ALL | LoshuHall.NORMAL,
+            ALL | LoshuHall.POWERS,
             ROWS | LoshuHall.FULL, 254, 255, 256, 1 << 16 | ROWS, 1 << 30, -2, Integer.MIN_VALUE | ROWS, Integer.MAX_VALUE - 1};
         for (int laws : wrong) {
             for (int side = 1; side <= 6; side++) {
                 int s = side;
-                Edges.refuses(CALL + "SIDE " + s + ", the laws " + laws, Check.IAE, LoshuHall::new, hall -> hall.dimension(s, laws));
+                Edges.refuses(CALL + "SIDE " + s + ", the laws " + laws, Check.IAE, LoshuHall::new,
+                    hall -> hall.dimension(s, laws));
             }
         }
     }
@@ -88,8 +91,10 @@ public final class Promise22DimensionTest {
     private static void squaresAreLeftAsTheyAre() {
         for (int count : new int[] {0, 7, 8}) {
             Edges.answers(CALL + "with " + count + " SQUARES", 8, Halls.laid(Halls.forms(count)), hall -> hall.dimension(4, 14));
-            Edges.refuses(CALL + "the side 7 with " + count + " SQUARES", Check.IAE, Halls.laid(Halls.forms(count)), hall -> hall.dimension(7, 14));
-            Edges.refuses(CALL + "the law FULL with " + count + " SQUARES", Check.IAE, Halls.laid(Halls.forms(count)), hall -> hall.dimension(4, 1));
+            Edges.refuses(CALL + "the side 7 with " + count + " SQUARES", Check.IAE, Halls.laid(Halls.forms(count)),
+                hall -> hall.dimension(7, 14));
+            Edges.refuses(CALL + "the law FULL with " + count + " SQUARES", Check.IAE, Halls.laid(Halls.forms(count)),
+                hall -> hall.dimension(4, 1));
         }
     }
 

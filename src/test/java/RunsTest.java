@@ -6,8 +6,8 @@ import java.util.List;
 public final class RunsTest {
     private static final int RUNS = 40;
     private static final int CALLS_THAT_READ = 64;
-    private static final String[] METHODS = {"square", "make", "stack", "product", "put", "at", "laws", "sum", "change", "same", "least", "kin",
-        "classes", "completions", "completion", "estimate", "givens", "slip", "orthogonal", "crossings", "dimension"};
+    private static final String[] METHODS = {"square", "make", "stack", "product", "put", "at", "laws", "sum", "change", "same", "least",
+        "kin", "classes", "completions", "completion", "estimate", "givens", "slip", "orthogonal", "crossings", "dimension"};
 
     private final Draw draw;
     private final LoshuHall hall = new LoshuHall();
@@ -136,7 +136,8 @@ public final class RunsTest {
         String[] sides = {"13579", "48", "157", "6"};
         allowed(sides[maker].indexOf('0' + side) >= 0);
         long square = added(side);
-        squares.set((int) square, maker == 0 ? Naive.siege(side) : maker == 1 ? Naive.cross(side) : maker == 2 ? Naive.digits(side) : Naive.lux());
+        squares.set((int) square,
+            maker == 0 ? Naive.siege(side) : maker == 1 ? Naive.cross(side) : maker == 2 ? Naive.digits(side) : Naive.lux());
         return square;
     }
 
