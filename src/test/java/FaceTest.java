@@ -3,10 +3,11 @@ import java.lang.reflect.Field;
 import java.lang.reflect.Member;
 import java.lang.reflect.Method;
 import java.lang.reflect.Modifier;
+import java.lang.reflect.Parameter;
 import java.util.Arrays;
 import java.util.TreeSet;
 
-/** The public face: its constants, its constructor and its methods with their throws clauses, and nothing else. */
+/** The public face: its constants, its constructor and its methods with their parameters and throws clauses, and nothing else. */
 public final class FaceTest {
     private static final String[] CONSTANTS = {
         "NONE -1", "EMPTY 0", "SIEGE 0", "CROSS 1", "DIGITS 2", "LUX 3", "TURN 0", "FLIP 1", "COMPLEMENT 2", "DOWN 3",
@@ -14,27 +15,30 @@ public final class FaceTest {
         "POWERS 128",
     };
     private static final String[] METHODS = {
-        "int square(int) IllegalArgumentException IllegalStateException",
-        "int put(int int int int) IndexOutOfBoundsException IllegalArgumentException",
-        "int at(int int int) IndexOutOfBoundsException",
-        "int make(int int) IllegalArgumentException IllegalStateException",
-        "int laws(int) IndexOutOfBoundsException",
-        "int sum(int int int) IndexOutOfBoundsException IllegalArgumentException",
-        "int change(int int int) IndexOutOfBoundsException IllegalArgumentException IllegalStateException",
-        "boolean same(int int) IndexOutOfBoundsException",
-        "int least(int int int) IndexOutOfBoundsException",
-        "int kin(int) IndexOutOfBoundsException",
+        "int square(int side) throws IllegalArgumentException, IllegalStateException",
+        "int put(int square, int row, int column, int number) throws IndexOutOfBoundsException, IllegalArgumentException",
+        "int at(int square, int row, int column) throws IndexOutOfBoundsException",
+        "int make(int maker, int side) throws IllegalArgumentException, IllegalStateException",
+        "int laws(int square) throws IndexOutOfBoundsException",
+        "int sum(int square, int kind, int line) throws IndexOutOfBoundsException, IllegalArgumentException",
+        "int change(int square, int change, int by)"
+            + " throws IndexOutOfBoundsException, IllegalArgumentException, IllegalStateException",
+        "boolean same(int square, int other) throws IndexOutOfBoundsException",
+        "int least(int square, int row, int column) throws IndexOutOfBoundsException",
+        "int kin(int square) throws IndexOutOfBoundsException",
         "int classes()",
-        "int completions(int) IndexOutOfBoundsException IllegalStateException",
-        "int completion(int int int int) IndexOutOfBoundsException IllegalArgumentException IllegalStateException",
-        "long estimate(int int) IndexOutOfBoundsException IllegalArgumentException IllegalStateException",
-        "int givens(int boolean) IndexOutOfBoundsException IllegalStateException",
-        "int slip(int int) IndexOutOfBoundsException IllegalArgumentException",
-        "boolean orthogonal(int int) IndexOutOfBoundsException IllegalStateException",
-        "int stack(int int) IndexOutOfBoundsException IllegalStateException",
-        "int product(int int) IndexOutOfBoundsException IllegalStateException",
-        "int crossings(int int) IndexOutOfBoundsException IllegalArgumentException IllegalStateException",
-        "int dimension(int int) IllegalArgumentException",
+        "int completions(int square) throws IndexOutOfBoundsException, IllegalStateException",
+        "int completion(int square, int which, int row, int column)"
+            + " throws IndexOutOfBoundsException, IllegalArgumentException, IllegalStateException",
+        "long estimate(int square, int seed) throws IndexOutOfBoundsException, IllegalArgumentException, IllegalStateException",
+        "int givens(int square, boolean isSet) throws IndexOutOfBoundsException, IllegalStateException",
+        "int slip(int square, int what) throws IndexOutOfBoundsException, IllegalArgumentException",
+        "boolean orthogonal(int square, int other) throws IndexOutOfBoundsException, IllegalStateException",
+        "int stack(int square, int other) throws IndexOutOfBoundsException, IllegalStateException",
+        "int product(int square, int other) throws IndexOutOfBoundsException, IllegalStateException",
+        "int crossings(int square, int total)"
+            + " throws IndexOutOfBoundsException, IllegalArgumentException, IllegalStateException",
+        "int dimension(int side, int laws) throws IllegalArgumentException",
     };
 
     public static void main(String[] args) throws IllegalAccessException {
@@ -67,8 +71,8 @@ public final class FaceTest {
         for (Field field : LoshuHall.class.getDeclaredFields()) {
             if (!isHidden(field)) {
                 int modifiers = field.getModifiers();
-                Check.holds(field + " is a constant",
-                    Modifier.isPublic(modifiers) && Modifier.isStatic(modifiers) && Modifier.isFinal(modifiers));
+                Check.holds(field + " is a constant", field.getType() == int.class
+                    && Modifier.isPublic(modifiers) && Modifier.isStatic(modifiers) && Modifier.isFinal(modifiers));
                 Check.holds(field + " is in the face", due.remove(field.getName() + " " + field.getInt(null)));
             }
         }
@@ -101,14 +105,17 @@ public final class FaceTest {
         }
     }
 
+    /** As the document words it; the names of the parameters are there if the class is compiled with -parameters. */
     private static String wordsOf(Method method) {
         StringBuilder words = new StringBuilder(method.getReturnType() + " " + method.getName() + "(");
-        for (Class<?> type : method.getParameterTypes()) {
-            words.append(words.charAt(words.length() - 1) == '(' ? "" : " ").append(type);
+        for (Parameter parameter : method.getParameters()) {
+            words.append(words.charAt(words.length() - 1) == '(' ? "" : ", ").append(parameter.getType());
+            words.append(" ").append(parameter.getName());
         }
         words.append(")");
-        for (Class<?> type : method.getExceptionTypes()) {
-            words.append(" ").append(type.getSimpleName());
+        Class<?>[] thrown = method.getExceptionTypes();
+        for (int i = 0; i < thrown.length; i++) {
+            words.append(i == 0 ? " throws " : ", ").append(thrown[i].getSimpleName());
         }
         return words.toString();
     }

@@ -4,6 +4,9 @@ import java.util.TreeSet;
 
 /** The document's words once more, in the slowest and plainest way, to hold the class against. */
 final class Naive {
+    /** Looked for once: all ways to lay nine numbers are many. */
+    private static final List<int[][]> OF_EMPTY_THREE = completions(new int[3][3]);
+
     private Naive() { }
 
     static int[][] copy(int[][] a) {
@@ -353,7 +356,7 @@ final class Naive {
     /** The least of the smallest sets, where the COMPLETIONS of a set are those of the EMPTY square that agree with it. */
     static int givens(int[][] a) {
         int n = a.length;
-        List<int[][]> all = completions(new int[n][n]);
+        List<int[][]> all = n == 3 ? OF_EMPTY_THREE : completions(new int[n][n]);
         int best = -1;
         for (int set = 0; set < 1 << n * n; set++) {
             int agreeing = 0;
