@@ -1232,7 +1232,7 @@ public final class LoshuHall {
                 reduceBy(rows[kept], leads[kept]);
             }
             int lead = leadOfRow();
-            if (lead != NONE && rank < rows.length && rank < leads.length) {
+            if (lead != NONE && rank >= 0 && rank < rows.length && rank < leads.length) {
                 leads[rank] = lead;
                 copyRowTo(rows[rank]);
                 rank++;
