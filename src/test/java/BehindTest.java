@@ -4,7 +4,7 @@ public final class BehindTest {
 
     /** Of each method some calls that answer, and for each sentence of its throws clause one that throws. */
     private static final Twin.Asked[] CALLS = {
-        t -> t.square(1), t -> t.square(9), t -> t.square(0), t -> t.square(10),
+        t -> t.square(1), t -> t.square(3), t -> t.square(9), t -> t.square(0), t -> t.square(10),
         t -> t.put(0, 1, 1, 0), t -> t.put(1, 0, 0, 16), t -> t.put(1, 3, 3, 0), t -> t.put(2, 2, 2, 999), t -> t.put(4, 6, 6, 1),
         t -> t.put(FIRST_ADDED, 0, 0, 5), t -> t.put(-1, 0, 0, 1), t -> t.put(0, 3, 0, 1), t -> t.put(0, 0, -1, 1),
         t -> t.put(0, 0, 0, 1000), t -> t.put(0, 0, 0, -1),
@@ -22,11 +22,11 @@ public final class BehindTest {
         t -> t.least(0, 0, 0), t -> t.least(1, 3, 3), t -> t.least(4, 6, 6), t -> t.least(0, 3, 0), t -> t.least(-1, 0, 0),
         t -> t.kin(2), t -> t.kin(5), t -> t.kin(FIRST_ADDED), t -> t.kin(8),
         Twin::classes,
-        t -> t.completions(1), t -> t.completions(0), t -> t.completions(4), t -> t.completions(8),
+        t -> t.completions(1), t -> t.completions(0), t -> t.completions(FIRST_ADDED), t -> t.completions(4), t -> t.completions(8),
         t -> t.completion(1, 0, 0, 0), t -> t.completion(0, 0, 1, 1), t -> t.completion(1, 1000, 0, 0),
         t -> t.completion(1, -1, 0, 0), t -> t.completion(4, 0, 0, 0), t -> t.completion(0, 0, 3, 0), t -> t.completion(8, 0, 0, 0),
-        t -> t.estimate(1, 0), t -> t.estimate(1, 65535), t -> t.estimate(0, 1), t -> t.estimate(1, 65536), t -> t.estimate(4, 0),
-        t -> t.estimate(8, 0),
+        t -> t.estimate(1, 0), t -> t.estimate(1, 65535), t -> t.estimate(0, 1), t -> t.estimate(FIRST_ADDED, 72),
+        t -> t.estimate(1, 65536), t -> t.estimate(4, 0), t -> t.estimate(8, 0),
         t -> t.givens(0, true), t -> t.givens(0, false), t -> t.givens(2, true), t -> t.givens(4, false), t -> t.givens(8, true),
         t -> t.slip(0, 0), t -> t.slip(1, 0), t -> t.slip(2, 1), t -> t.slip(5, 2), t -> t.slip(0, 3), t -> t.slip(8, 0),
         t -> t.orthogonal(2, 3), t -> t.orthogonal(0, 0), t -> t.orthogonal(2, 2), t -> t.orthogonal(0, 1), t -> t.orthogonal(0, 8),

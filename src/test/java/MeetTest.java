@@ -91,7 +91,8 @@ public final class MeetTest {
 
     /** Of a NORMAL square also the COMPLEMENT of the SIDE times itself, and 1, is NORMAL. */
     private static void lawsThatChangesKeep() {
-        for (int[][] square : new int[][][] {Halls.loShu(), Halls.four(), Halls.brokenFour(), Naive.digits(5), Naive.lux(), Naive.siege(9)}) {
+        int[][][] squares = {Halls.loShu(), Halls.four(), Halls.brokenFour(), Naive.digits(5), Naive.lux(), Naive.siege(9)};
+        for (int[][] square : squares) {
             int side = square.length;
             String meet = "Promises 6 and 8, SIDE " + side + ": ";
             int laws = Halls.of(square).laws(0);

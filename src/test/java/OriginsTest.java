@@ -1,7 +1,8 @@
 /** Promises 2 to 22: SQUARES whose numbers came by other calls, laid, made, changed, stacked and multiplied, asked at every method. */
 public final class OriginsTest {
     private static final int[] TOTALS = {0, 1, 3, 15, 34, 65, 111, 2997, 8991};
-    private static final int[] SEEDS = {0, 1, 4711, 65535};
+    /** Some of them lead to an ESTIMATE above 0 of an EMPTY square of the SIDE 3 or 4. */
+    private static final int[] SEEDS = {0, 1, 72, 376, 1358, 4711, 6196, 62612, 65535};
 
     public static void main(String[] args) {
         laid();

@@ -92,7 +92,8 @@ public final class ReadmeTest {
         Path file = folder.resolve("ReadmeCalls.java");
         Files.writeString(file, source);
         String classPath = System.getProperty("java.class.path");
-        int compiled = ToolProvider.getSystemJavaCompiler().run(null, null, null, "-cp", classPath, "-d", folder.toString(), file.toString());
+        int compiled = ToolProvider.getSystemJavaCompiler()
+            .run(null, null, null, "-cp", classPath, "-d", folder.toString(), file.toString());
         Check.due("the calls that README.md shows are compiled", 0, compiled);
         if (compiled == 0) {
             ask(classPath + File.pathSeparator + folder);
